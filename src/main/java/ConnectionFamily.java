@@ -1131,7 +1131,7 @@ public final class ConnectionFamily {
         int members;
         int faultKind = NONE;
         int faultPlace;
-        /** Used while the text is read: whose children stand in each open parenthesis, and where in the grammar it is. */
+        /** Used while the text is read: whose children stand in each open parenthesis, and what came last. */
         final int[] owners = new int[MOST_NESTING];
         int nesting;
         int place;
