@@ -15,9 +15,11 @@ final class ActPromisesTest {
         promise04Load();
         promise04LoadStartsAnew();
         promise04Faults();
+        promise04ReadsAnew();
         promise05Fault();
         promise06Open();
         promise06OpenInherits();
+        promise06OpenIsNew();
         promise07Close();
         promise07CloseGivesBack();
         promise07CloseMergesEstimates();
@@ -33,7 +35,9 @@ final class ActPromisesTest {
         promise12TimeoutBackoff();
         promise12Order();
         promise12BudgetAndDrops();
+        promise12BudgetOfAllFlights();
         promise12Credit();
+        promise12Threshold();
         promise12KinFeelLosses();
         promise12LateAfterClosing();
         promise12OrderOfAcknowledgements();
@@ -204,6 +208,18 @@ final class ActPromisesTest {
         faultOf(longest.toString(), 60, 1);
     }
 
+    /** What an earlier text has left behind does not matter. */
+    private static void promise04ReadsAnew() {
+        ConnectionFamily f = new ConnectionFamily();
+        String[] texts = {"5", "(1)", "1(2", ")", "2", "1(1(1(1(1", "3(4)", "1(123456789)", "123", "1(", "7", "", "8", "0"};
+        int[] answers = {1, -10, -13, -10, 1, -19, 2, 10, -11, -12, 1, -10, 1, -10};
+        int[] kinds = {NONE, 1, 1, 1, NONE, 1, NONE, NONE, 1, 1, NONE, 1, NONE, 2};
+        for (int i = 0; i < texts.length; i++) {
+            due("load of '" + texts[i] + "' behind others", Texts.load(f, texts[i]), answers[i]);
+            due("fault() of '" + texts[i] + "' behind others", f.fault(), kinds[i]);
+        }
+    }
+
     private static void promise05Fault() {
         ConnectionFamily f = new ConnectionFamily();
         due("fault() before load()", f.fault(), NONE);
@@ -277,6 +293,24 @@ final class ActPromisesTest {
         due("no inherited mark", g.property(1, MARK), 0);
         due("no inherited backlog", g.property(1, BACKLOG), 0);
         due("no estimates", g.property(1, S), NONE);
+    }
+
+    private static void promise06OpenIsNew() {
+        ConnectionFamily f = new ConnectionFamily();
+        f.open(0, 1);
+        f.setLink(0, 1);
+        f.give(0, 1);
+        f.give(1, 1);
+        f.run(17);
+        // the packet of 1 is dropped at tick 0, behind that of the head, and comes back after its timeout at tick 10
+        counts("of the old one", f, 1, 2, 1, 1, 0, 1, 1);
+        due("mark of the old one", f.property(1, MARK), 1);
+        f.close(1);
+        due("open(0, 1)", f.open(0, 1), 1);
+        counts("of the new one", f, 1, 0, 0, 0, 0, 0, 0);
+        due("next of the new one", f.property(1, NEXT), 0);
+        due("mark of the new one", f.property(1, MARK), 0);
+        due("samples of the new one", f.property(1, SAMPLES), 0);
     }
 
     private static void promise07Close() {
@@ -656,6 +690,54 @@ final class ActPromisesTest {
         }
         due("run(10)", g.run(10), 3);
         due("timeouts of 9", g.count(9, 4), 1);
+    }
+
+    /** The head keeps its flight of 2 when its limit goes to its child, whose window of 4 would be too much then. */
+    private static void promise12BudgetOfAllFlights() {
+        ConnectionFamily f = new ConnectionFamily();
+        for (int i = 0; i < 3; i++) {
+            f.give(0, 2);
+            f.run(6);
+        }
+        f.open(0, 1);
+        f.setBudget(4);
+        f.give(0, 5);
+        f.run(1);
+        due("flight of the head", f.property(0, FLIGHT), 2);
+        f.setWeight(1, 9);
+        f.give(1, 10);
+        due("limit of the head", f.property(0, 3), 0);
+        due("window of its child", f.property(1, WINDOW), 4);
+        f.run(1);
+        due("flight of its child", f.property(1, FLIGHT), 2);
+        due("all flights", f.told(6), 4);
+    }
+
+    /** Both are at the edge of a quotient by 32. */
+    private static void promise12Threshold() {
+        for (int acknowledged = 28; acknowledged <= 29; acknowledged++) {
+            ConnectionFamily f = new ConnectionFamily();
+            f.setLink(2, 1);
+            for (int i = 0; i < acknowledged; i++) {
+                f.give(0, 1);
+                f.run(2);
+            }
+            due("credit", f.property(0, CREDIT), 32 + 16 * acknowledged);
+            sendWithDelay(f, 0, 30);
+            f.run(2);
+            due("no timeout yet", f.count(0, 4), 0);
+            f.run(1);
+            due("timeout", f.count(0, 4), 1);
+            due("threshold by a timeout", f.property(0, THRESHOLD), 15);
+            due("credit by a timeout", f.property(0, CREDIT), 16);
+            f.undo();
+            f.undo();
+            sendWithDelay(f, 0, 1);
+            f.run(1);
+            due("gap", f.count(0, 3), 1);
+            due("threshold by a gap", f.property(0, THRESHOLD), 15);
+            due("credit by a gap", f.property(0, CREDIT), 240);
+        }
     }
 
     private static void promise12Credit() {

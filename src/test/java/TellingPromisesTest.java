@@ -407,5 +407,15 @@ final class TellingPromisesTest {
         f.setBudget(200);
         // limits of 20 and 180: x is 3 and 0
         due("x is rounded down", f.fairness(), 500);
+
+        ConnectionFamily g = new ConnectionFamily();
+        g.setLink(2, 1);
+        g.open(0, 1);
+        for (int i = 0; i < 27; i++) {
+            g.give(i < 20 ? 0 : 1, 1);
+            g.run(2);
+        }
+        // x is 20 * 60 / 20 and 7 * 60 / 20: 1000 * 81 * 81 / (2 * 4041)
+        due("fairness() of 60 and 21", g.fairness(), 811);
     }
 }

@@ -80,29 +80,33 @@ final class TrialPromisesTest {
         due("bestBudget(-1)", f.bestBudget(-1), BAD);
         due("bestBudget(most)", f.bestBudget(MOST), BAD);
         due("the smallest of equal ones", f.bestBudget(15), 20);
+        due("bestBudget(1)", f.bestBudget(1), 20);
+        for (int budget = 20; budget <= 100; budget += 20) {
+            ConnectionFamily g = ofWindow(budget / 10);
+            long before = g.digest();
+            due("a limit of a tenth should be the window", g.bestBudget(7), budget);
+            due("digest() after bestBudget()", g.digest(), before);
+            due("what it brings", g.ifBudget(budget, 7), budget / 10);
+            due("what a smaller one brings", g.ifBudget(budget - 10, 7), budget / 10 - 1);
+        }
+    }
+
+    /** Its connection 1 could have so many packets in flight, and gets a tenth of the budget. */
+    private static ConnectionFamily ofWindow(int window) {
+        ConnectionFamily f = new ConnectionFamily();
         f.setLink(1, 8);
         f.setLink(2, 1);
-        f.setBudget(200);
-        for (int i = 0; i < 50; i++) {
-            f.give(0, 8);
+        for (int i = 0; i < 2 * window - 2; i++) {
+            f.give(0, 1);
             f.run(2);
         }
-        // each child has most of the credit, and twice the V, of its parent
-        for (int c = 0; c < 4; c++) {
-            f.open(c, 9);
-        }
-        f.setLink(0, 60);
-        f.setLink(2, 8);
-        f.give(4, 500);
-        long before = f.digest();
-        int best = f.bestBudget(15);
-        due("digest() after bestBudget()", f.digest(), before);
-        CHECK.holds("a greater budget brings more here", best > 20);
-        for (int budget = 20; budget <= 100; budget += 20) {
-            int would = f.ifBudget(budget, 15);
-            int most = f.ifBudget(best, 15);
-            CHECK.holds("none is better than " + best, budget < best ? would < most : would <= most);
-        }
+        f.open(0, 1);
+        f.setBudget(200);
+        due("window", f.property(1, 6), window);
+        f.setWeight(0, 9);
+        f.setLink(2, 5);
+        f.give(1, 100);
+        return f;
     }
 
     private static void promise25IfOpened() {
@@ -157,6 +161,21 @@ final class TrialPromisesTest {
         f.type(50);
         due("undo()", f.undo(), 0);
         due("the text stays", f.told(12), 2);
+        f.setLink(2, 12);
+        f.give(0, 1);
+        f.run(12);
+        due("nothing is late", f.told(10), 0);
+        f.run(1);
+        due("both packets of tick 0 are late", f.told(10), 2);
+        f.undo();
+        due("nothing is late any more", f.told(10), 0);
+        due("backoff", f.property(0, 10), 1);
+        f.undo();
+        due("backoff", f.property(0, 10), 0);
+        due("timeouts", f.count(0, 4), 0);
+        due("undo()", f.undo(), 1);
+        due("undo()", f.undo(), 0);
+        due("delay", f.told(4), 5);
     }
 
     /** What undo() has to restore, as far as it is told: everything but the remembered states and the text buffer. */
@@ -246,11 +265,11 @@ final class TrialPromisesTest {
     private static void promise27Digest() {
         due("digest() of a new object", new ConnectionFamily().digest(), byHand(new ConnectionFamily()));
         ConnectionFamily f = busy();
-        for (int i = 0; i < 60 && f.told(7) == 0; i++) {
+        for (int i = 0; i < 60 && f.queued(0) < 1; i++) {
             f.run(1);
         }
         due("digest() of a busy one", f.digest(), byHand(f));
-        CHECK.holds("it has something in its queue", f.told(7) > 0);
+        CHECK.holds("it has something in its queue", f.queued(0) > 0);
         f.close(3);
         f.open(0, 5);
         Texts.load(f, "1(2(0))");
