@@ -267,7 +267,9 @@ public final class ConnectionFamily {
         if (!isBudget(budget) || ticks < 1 || ticks > MOST_TICKS) {
             return BAD;
         }
-        return acknowledgedWith(budget, ticks);
+        Family tried = copyForTrial();
+        tried.changeBudget(budget);
+        return tried.runTicks(ticks);
     }
 
     public int bestBudget(int ticks) {
@@ -277,7 +279,9 @@ public final class ConnectionFamily {
         int best = NONE;
         int most = -1;
         for (int budget : TRIAL_BUDGETS) {
-            int acknowledged = acknowledgedWith(budget, ticks);
+            Family tried = copyForTrial();
+            tried.changeBudget(budget);
+            int acknowledged = tried.runTicks(ticks);
             if (acknowledged > most) {
                 most = acknowledged;
                 best = budget;
@@ -335,12 +339,6 @@ public final class ConnectionFamily {
             h = 31 * h + inFlight(c, i, 1);
         }
         return h;
-    }
-
-    private int acknowledgedWith(int budget, int ticks) {
-        Family tried = copyForTrial();
-        tried.changeBudget(budget);
-        return tried.runTicks(ticks);
     }
 
     private Family copyForTrial() {
@@ -407,7 +405,7 @@ public final class ConnectionFamily {
         }
 
         boolean isChild(int c, int parent) {
-            return has(c) && members[c].parent == parent;
+            return c >= 0 && c < CONNECTIONS && members[c].isOpen && members[c].parent == parent;
         }
 
         int smallestClosed() {
