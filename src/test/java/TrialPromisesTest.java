@@ -146,13 +146,13 @@ final class TrialPromisesTest {
         due("undo() of nothing", f.undo(), STATE);
         long[] before = new long[8];
         for (int i = 0; i < 8; i++) {
-            before[i] = withoutHistory(f);
+            before[i] = Prints.withoutHistory(f);
             f.give(0, i + 1);
         }
         due("told(11)", f.told(11), 5);
         for (int i = 7; i >= 3; i--) {
             due("undo()", f.undo(), i - 3);
-            due("the state before act " + i, withoutHistory(f), before[i]);
+            due("the state before act " + i, Prints.withoutHistory(f), before[i]);
         }
         due("undo() of a sixth", f.undo(), STATE);
         due("backlog", f.property(0, 8), 6);
@@ -178,40 +178,14 @@ final class TrialPromisesTest {
         due("delay", f.told(4), 5);
     }
 
-    /** What undo() has to restore, as far as it is told: everything but the remembered states and the text buffer. */
-    private static long withoutHistory(ConnectionFamily f) {
-        long h = 7;
-        for (int what = 0; what <= 10; what++) {
-            h = 31 * h + f.told(what);
-        }
-        for (int c = 0; c <= 9; c++) {
-            for (int what = 0; what <= 16; what++) {
-                h = 31 * h + f.property(c, what);
-            }
-            for (int what = 0; what <= 5; what++) {
-                h = 31 * h + f.count(c, what);
-            }
-            for (int i = 0; f.inFlight(c, i, 0) >= 0; i++) {
-                h = 31 * (31 * h + f.inFlight(c, i, 0)) + f.inFlight(c, i, 1);
-            }
-        }
-        for (int i = 0; f.queued(i) >= 0; i++) {
-            h = 31 * h + f.queued(i);
-        }
-        for (int budget : new int[] {3, 40, 200}) {
-            h = 31 * h + f.ifBudget(budget, 60);
-        }
-        return h;
-    }
-
     private static void promise26EveryActIsRemembered() {
         for (int act = 0; act < 7; act++) {
             ConnectionFamily f = busy();
-            long before = withoutHistory(f);
+            long before = Prints.withoutHistory(f);
             String name = doAct(f, act);
-            CHECK.holds(name + " changes something", withoutHistory(f) != before);
+            CHECK.holds(name + " changes something", Prints.withoutHistory(f) != before);
             due("undo() of " + name, f.undo(), 4);
-            due("the state before " + name, withoutHistory(f), before);
+            due("the state before " + name, Prints.withoutHistory(f), before);
             due("undo() of run", f.undo(), 3);
             due("the clock", f.told(0), 0);
         }
@@ -234,11 +208,11 @@ final class TrialPromisesTest {
         ConnectionFamily f = busy();
         int opened = f.open(3, 3);
         f.open(opened, 3);
-        long before = withoutHistory(f);
+        long before = Prints.withoutHistory(f);
         due("close()", f.close(opened), 3);
-        CHECK.holds("close changes something", withoutHistory(f) != before);
+        CHECK.holds("close changes something", Prints.withoutHistory(f) != before);
         due("undo() of close", f.undo(), 4);
-        due("the state before close", withoutHistory(f), before);
+        due("the state before close", Prints.withoutHistory(f), before);
     }
 
     private static void promise26ErrorsAreNot() {
@@ -246,7 +220,7 @@ final class TrialPromisesTest {
         f.undo();
         f.undo();
         int remembered = f.told(11);
-        long before = withoutHistory(f);
+        long before = Prints.withoutHistory(f);
         f.open(9, 1);
         f.open(0, 0);
         f.close(0);
@@ -259,7 +233,7 @@ final class TrialPromisesTest {
         f.bestBudget(5);
         f.fairness();
         due("told(11)", f.told(11), remembered);
-        due("the state", withoutHistory(f), before);
+        due("the state", Prints.withoutHistory(f), before);
     }
 
     private static void promise27Digest() {
