@@ -530,6 +530,9 @@ public final class ConnectionFamily {
         }
 
         void divideAmount(int c) {
+            if (!has(c)) {
+                return;
+            }
             Connection self = members[c];
             int sum = self.weight;
             for (int k = 0; k < CONNECTIONS; k++) {

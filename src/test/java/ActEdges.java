@@ -1,5 +1,5 @@
 /** Promises 1 to 12: the range of each argument, what is answered at its edges, and what is refused beyond them. */
-final class ActEdges extends EdgeGroup {
+final class ActEdges extends ClauseGroup {
     ActEdges(Check check, Doc doc) {
         super(check, doc);
     }
@@ -44,7 +44,7 @@ final class ActEdges extends EdgeGroup {
     }
 
     private void newObject() {
-        edge("Promise 1", "Creates a family with its head only, with everything as it is at first, at tick 0, with an empty text buffer.");
+        clause("Promise 1", "Creates a family with its head only, with everything as it is at first, at tick 0, with an empty text buffer.");
         ConnectionFamily f = new ConnectionFamily();
         toldAll("new", f, 0, 40, 20, 2, 5, 1, 0, 0, 0, 32, 0, 0, 0);
         headAloneAsAtFirst(f, 1);
@@ -55,19 +55,19 @@ final class ActEdges extends EdgeGroup {
     }
 
     private void typeOfBytes() {
-        edge("Promise 2", "the byte, 32 to 126");
+        clause("Promise 2", "the byte, 32 to 126");
         ConnectionFamily f = new ConnectionFamily();
         due("type(32)", f.type(32), 1);
         due("type(126)", f.type(126), 2);
-        edge("Promise 2", "Returns how many bytes it has then; BAD if c is out of range;");
+        clause("Promise 2", "Returns how many bytes it has then; BAD if c is out of range;");
         for (int c : new int[] {LEAST, -1, 0, 31, 127, 128, 255, 256 + 49, MOST}) {
-            refused("type(" + c + ")", EdgeGroup::busy, g -> g.type(c), BAD);
-            refused("type(" + c + ") when full", EdgeGroup::full, g -> g.type(c), BAD);
+            refused("type(" + c + ")", ClauseGroup::busy, g -> g.type(c), BAD);
+            refused("type(" + c + ") when full", ClauseGroup::full, g -> g.type(c), BAD);
         }
     }
 
     private void typeWhenFull() {
-        edge("Promise 2", "FULL if it has 60.");
+        clause("Promise 2", "FULL if it has 60.");
         ConnectionFamily f = new ConnectionFamily();
         for (int n = 1; n <= 60; n++) {
             due("type(49)", f.type(49), n);
@@ -75,13 +75,13 @@ final class ActEdges extends EdgeGroup {
         due("type(49) behind 60", f.type(49), FULL);
         due("type(32) behind 60", f.type(32), FULL);
         due("told(12)", f.told(BYTES), 60);
-        refused("type(49)", EdgeGroup::full, g -> g.type(49), FULL);
+        refused("type(49)", ClauseGroup::full, g -> g.type(49), FULL);
         f.clear();
         due("type(49) after clear()", f.type(49), 1);
     }
 
     private void clearOfAll() {
-        edge("Promise 3", "Empties the text buffer.");
+        clause("Promise 3", "Empties the text buffer.");
         ConnectionFamily f = new ConnectionFamily();
         due("clear() of nothing", f.clear(), 0);
         f.type(49);
@@ -89,18 +89,18 @@ final class ActEdges extends EdgeGroup {
         due("clear() again", f.clear(), 0);
         due("told(12)", f.told(BYTES), 0);
         due("clear() of 60", full().clear(), 60);
-        changesNothing("clear() of nothing", EdgeGroup::fresh, g -> g.clear());
+        changesNothing("clear() of nothing", ClauseGroup::fresh, g -> g.clear());
     }
 
     private void loadReturns() {
-        edge("Promise 4", "Returns the number of connections;");
+        clause("Promise 4", "Returns the number of connections;");
         ConnectionFamily f = new ConnectionFamily();
         due("load() of one", Texts.load(f, "1"), 1);
         due("load() of ten", Texts.load(f, "1(123456789)"), 10);
-        edge("Promise 4", "Reads the text buffer, which stays, as a family.");
+        clause("Promise 4", "Reads the text buffer, which stays, as a family.");
         due("told(12)", f.told(BYTES), 12);
         due("load() again", f.load(), 10);
-        edge("Promise 4", "-10 minus the position of the fault if there is one");
+        clause("Promise 4", "-10 minus the position of the fault if there is one");
         due("load() of a fault at 0", Texts.load(f, "x"), -10);
         due("load() of a fault at 1", Texts.load(f, "1x"), -11);
         due("load() of a fault at 59", Texts.load(f, "1" + " ".repeat(58) + "x"), -69);
@@ -128,7 +128,7 @@ final class ActEdges extends EdgeGroup {
     }
 
     private void loadStartsAnew() {
-        edge("Promise 4", "The head is as at first, with its weight, the clock is at tick 0, nothing is on the link");
+        clause("Promise 4", "The head is as at first, with its weight, the clock is at tick 0, nothing is on the link");
         startsAnew(busy());
         startsAnew(ofAWornHead());
     }
@@ -137,7 +137,7 @@ final class ActEdges extends EdgeGroup {
         due("load()", Texts.load(f, "9"), 1);
         due("told(0)", f.told(CLOCK), 0);
         headAloneAsAtFirst(f, 9);
-        edge("Promise 4", "(neither in its queue nor as an acknowledgement on its way), and no acknowledgement has been late;");
+        clause("Promise 4", "(neither in its queue nor as an acknowledgement on its way), and no acknowledgement has been late;");
         due("told(6)", f.told(FLIGHTS), 0);
         due("told(7)", f.told(QUEUE), 0);
         due("told(8)", f.told(ON_WAY), 0);
@@ -147,7 +147,7 @@ final class ActEdges extends EdgeGroup {
     }
 
     private void loadLeavesTheRest() {
-        edge("Promise 4", "The budget and the properties of the link stay.");
+        clause("Promise 4", "The budget and the properties of the link stay.");
         ConnectionFamily f = new ConnectionFamily();
         f.setBudget(200);
         f.setLink(0, 60);
@@ -166,7 +166,7 @@ final class ActEdges extends EdgeGroup {
     }
 
     private void loadOfAFault() {
-        edge("Promise 4", "(then nothing changes but what fault() tells).");
+        clause("Promise 4", "(then nothing changes but what fault() tells).");
         for (String text : new String[] {"", "0", "1(1234567891)", "1(1(1(1(1(1)))))", "2(3(1)4"}) {
             ConnectionFamily f = busy();
             f.clear();
@@ -176,11 +176,11 @@ final class ActEdges extends EdgeGroup {
             due("told(11) after '" + text + "'", f.told(REMEMBERED), 5);
             due("told(12) after '" + text + "'", f.told(BYTES), text.length());
         }
-        refused("load() of the same fault again", EdgeGroup::busy, f -> f.load(), -12);
+        refused("load() of the same fault again", ClauseGroup::busy, f -> f.load(), -12);
     }
 
     private void faultOfTheLatestLoad() {
-        edge("Promise 5", "Returns 1 to 4; NONE if it found none, or there was no such call.");
+        clause("Promise 5", "Returns 1 to 4; NONE if it found none, or there was no such call.");
         ConnectionFamily f = new ConnectionFamily();
         due("fault() without load()", f.fault(), NONE);
         String[] texts = {"", "0", "1(1234567891)", "1(1(1(1(1(1)))))", "1"};
@@ -193,24 +193,24 @@ final class ActEdges extends EdgeGroup {
         f.clear();
         f.type('1');
         due("fault() of the latest load(), not of the text", f.fault(), 2);
-        changesNothing("fault()", EdgeGroup::busy, g -> g.fault());
+        changesNothing("fault()", ClauseGroup::busy, g -> g.fault());
     }
 
     private void openOfWeights() {
-        edge("Promise 6", "its weight, 1 to 9");
+        clause("Promise 6", "its weight, 1 to 9");
         due("open(0, 1)", fresh().open(0, 1), 1);
         due("open(0, 9)", fresh().open(0, 9), 1);
-        edge("Promise 6", "BAD if parent is not open or weight is out of range;");
+        clause("Promise 6", "BAD if parent is not open or weight is out of range;");
         for (int weight : new int[] {LEAST, -1, 0, 10, MOST}) {
-            refused("open(0, " + weight + ")", EdgeGroup::busy, f -> f.open(0, weight), BAD);
-            refused("open(0, " + weight + ") when full", EdgeGroup::full, f -> f.open(0, weight), BAD);
+            refused("open(0, " + weight + ")", ClauseGroup::busy, f -> f.open(0, weight), BAD);
+            refused("open(0, " + weight + ") when full", ClauseGroup::full, f -> f.open(0, weight), BAD);
         }
     }
 
     private void openOfParents() {
-        edge("Promise 6", "BAD if parent is not open");
+        clause("Promise 6", "BAD if parent is not open");
         for (int parent : new int[] {LEAST, -9, -1, 4, 9, 10, MOST}) {
-            refused("open(" + parent + ", 1)", EdgeGroup::busy, f -> f.open(parent, 1), BAD);
+            refused("open(" + parent + ", 1)", ClauseGroup::busy, f -> f.open(parent, 1), BAD);
         }
         due("open(3, 1)", busy().open(3, 1), 4);
         ConnectionFamily f = ofTen();
@@ -220,23 +220,23 @@ final class ActEdges extends EdgeGroup {
     }
 
     private void openWhenFull() {
-        edge("Promise 6", "FULL if all 10 connections are open.");
+        clause("Promise 6", "FULL if all 10 connections are open.");
         ConnectionFamily f = new ConnectionFamily();
         for (int c = 1; c <= 9; c++) {
             due("open(0, 1)", f.open(0, 1), c);
         }
         due("open(0, 1)", f.open(0, 1), FULL);
-        refused("open(0, 1)", EdgeGroup::full, g -> g.open(0, 1), FULL);
-        refused("open(9, 9)", EdgeGroup::full, g -> g.open(9, 9), FULL);
+        refused("open(0, 1)", ClauseGroup::full, g -> g.open(0, 1), FULL);
+        refused("open(9, 9)", ClauseGroup::full, g -> g.open(9, 9), FULL);
     }
 
     private void closeOfNumbers() {
-        edge("Promise 7", "the connection, 1 to 9");
+        clause("Promise 7", "the connection, 1 to 9");
         due("close(1)", ofTen().close(1), 0);
         due("close(9)", ofTen().close(9), 0);
-        edge("Promise 7", "BAD if c is out of range or not open;");
+        clause("Promise 7", "BAD if c is out of range or not open;");
         for (int c : new int[] {LEAST, -9, -1, 0, 4, 9, 10, MOST}) {
-            refused("close(" + c + ")", EdgeGroup::busy, f -> f.close(c), BAD);
+            refused("close(" + c + ")", ClauseGroup::busy, f -> f.close(c), BAD);
         }
         ConnectionFamily f = ofTen();
         f.close(5);
@@ -244,7 +244,7 @@ final class ActEdges extends EdgeGroup {
     }
 
     private void closeWithAFlight() {
-        edge("Promise 7", "STATE if its flight is not empty.");
+        clause("Promise 7", "STATE if its flight is not empty.");
         Maker oneInFlight = () -> {
             ConnectionFamily f = new ConnectionFamily();
             f.open(0, 1);
@@ -269,22 +269,22 @@ final class ActEdges extends EdgeGroup {
     }
 
     private void giveOfPackets() {
-        edge("Promise 8", "how many, 1 to 500");
+        clause("Promise 8", "how many, 1 to 500");
         ConnectionFamily f = new ConnectionFamily();
         due("give(0, 1)", f.give(0, 1), 1);
         due("give(0, 500)", f.give(0, 500), 501);
-        edge("Promise 8", "BAD if c is not open or n is out of range;");
+        clause("Promise 8", "BAD if c is not open or n is out of range;");
         for (int n : new int[] {LEAST, -1, 0, 501, MOST}) {
-            refused("give(0, " + n + ")", EdgeGroup::busy, g -> g.give(0, n), BAD);
-            refused("give(0, " + n + ") when full", EdgeGroup::full, g -> g.give(0, n), BAD);
+            refused("give(0, " + n + ")", ClauseGroup::busy, g -> g.give(0, n), BAD);
+            refused("give(0, " + n + ") when full", ClauseGroup::full, g -> g.give(0, n), BAD);
         }
         for (int c : new int[] {LEAST, -1, 4, 9, 10, MOST}) {
-            refused("give(" + c + ", 1)", EdgeGroup::busy, g -> g.give(c, 1), BAD);
+            refused("give(" + c + ", 1)", ClauseGroup::busy, g -> g.give(c, 1), BAD);
         }
     }
 
     private void giveWhenFull() {
-        edge("Promise 8", "FULL if it would be above 9999.");
+        clause("Promise 8", "FULL if it would be above 9999.");
         int[][] backlogAndN = {{9499, 500, 9999}, {9500, 500, FULL}, {9998, 1, 9999}, {9998, 2, FULL}, {9999, 1, FULL},
             {9999, 500, FULL}};
         for (int[] one : backlogAndN) {
@@ -302,36 +302,36 @@ final class ActEdges extends EdgeGroup {
     }
 
     private void setWeightOfWeights() {
-        edge("Promise 9", "the new weight, 1 to 9");
+        clause("Promise 9", "the new weight, 1 to 9");
         ConnectionFamily f = ofTen();
         due("setWeight(9, 9)", f.setWeight(9, 9), 1);
         due("setWeight(9, 1)", f.setWeight(9, 1), 9);
         due("setWeight(0, 9)", f.setWeight(0, 9), 1);
         due("weight of the head", f.property(0, WEIGHT), 9);
-        edge("Promise 9", "BAD if c is not open or weight is out of range.");
+        clause("Promise 9", "BAD if c is not open or weight is out of range.");
         for (int weight : new int[] {LEAST, -1, 0, 10, MOST}) {
-            refused("setWeight(0, " + weight + ")", EdgeGroup::busy, g -> g.setWeight(0, weight), BAD);
+            refused("setWeight(0, " + weight + ")", ClauseGroup::busy, g -> g.setWeight(0, weight), BAD);
         }
         for (int c : new int[] {LEAST, -1, 4, 9, 10, MOST}) {
-            refused("setWeight(" + c + ", 5)", EdgeGroup::busy, g -> g.setWeight(c, 5), BAD);
+            refused("setWeight(" + c + ", 5)", ClauseGroup::busy, g -> g.setWeight(c, 5), BAD);
         }
     }
 
     private void setBudgetOfBudgets() {
-        edge("Promise 10", "the new budget, 1 to 200");
+        clause("Promise 10", "the new budget, 1 to 200");
         ConnectionFamily f = new ConnectionFamily();
         due("setBudget(1)", f.setBudget(1), 40);
         due("setBudget(200)", f.setBudget(200), 1);
         due("setBudget(200)", f.setBudget(200), 200);
-        edge("Promise 10", "BAD if b is out of range;");
+        clause("Promise 10", "BAD if b is out of range;");
         for (int b : new int[] {LEAST, -1, 0, 201, MOST}) {
-            refused("setBudget(" + b + ")", EdgeGroup::fresh, g -> g.setBudget(b), BAD);
-            refused("setBudget(" + b + ") with flights", EdgeGroup::busy, g -> g.setBudget(b), BAD);
+            refused("setBudget(" + b + ")", ClauseGroup::fresh, g -> g.setBudget(b), BAD);
+            refused("setBudget(" + b + ") with flights", ClauseGroup::busy, g -> g.setBudget(b), BAD);
         }
     }
 
     private void setBudgetWithFlights() {
-        edge("Promise 10", "STATE if all flights together are greater than b.");
+        clause("Promise 10", "STATE if all flights together are greater than b.");
         Maker twoAndOne = () -> {
             ConnectionFamily f = new ConnectionFamily();
             trips(f, 0, 2);
@@ -349,7 +349,7 @@ final class ActEdges extends EdgeGroup {
     }
 
     private void setLinkOfProperties() {
-        edge("Promise 11", "0 for the capacity of the queue, 1 for the rate, 2 for the delay");
+        clause("Promise 11", "0 for the capacity of the queue, 1 for the rate, 2 for the delay");
         int[] most = {60, 8, 30};
         int[] first = {20, 2, 5};
         for (int what = 0; what <= 2; what++) {
@@ -360,21 +360,21 @@ final class ActEdges extends EdgeGroup {
                 due("told(" + (other + 2) + ")", f.told(other + 2), other == what ? 1 : first[other]);
             }
         }
-        edge("Promise 11", "the new value, in its range");
+        clause("Promise 11", "the new value, in its range");
         for (int what = 0; what <= 2; what++) {
             int property = what;
             for (int v : new int[] {LEAST, -1, 0, most[what] + 1, MOST}) {
-                refused("setLink(" + what + ", " + v + ")", EdgeGroup::busy, f -> f.setLink(property, v), BAD);
+                refused("setLink(" + what + ", " + v + ")", ClauseGroup::busy, f -> f.setLink(property, v), BAD);
             }
         }
-        edge("Promise 11", "Returns the value before; BAD if an argument is out of range.");
+        clause("Promise 11", "Returns the value before; BAD if an argument is out of range.");
         for (int what : new int[] {LEAST, -1, 3, MOST}) {
-            refused("setLink(" + what + ", 1)", EdgeGroup::busy, f -> f.setLink(what, 1), BAD);
+            refused("setLink(" + what + ", 1)", ClauseGroup::busy, f -> f.setLink(what, 1), BAD);
         }
     }
 
     private void setLinkLeavesTheQueue() {
-        edge("Promise 11", "(Packets that are in the queue stay there, also if there are more of them than the new capacity.)");
+        clause("Promise 11", "(Packets that are in the queue stay there, also if there are more of them than the new capacity.)");
         ConnectionFamily f = ofTen();
         f.setLink(1, 1);
         for (int c = 0; c <= 9; c++) {
@@ -397,19 +397,19 @@ final class ActEdges extends EdgeGroup {
     }
 
     private void runOfTicks() {
-        edge("Promise 12", "the number of ticks, 1 to 60");
+        clause("Promise 12", "the number of ticks, 1 to 60");
         ConnectionFamily f = new ConnectionFamily();
         f.run(1);
         due("told(0) after run(1)", f.told(CLOCK), 1);
         f.run(60);
         due("told(0) after run(60)", f.told(CLOCK), 61);
-        edge("Promise 12", "Returns how many packets were acknowledged in them; BAD if ticks is out of range.");
+        clause("Promise 12", "Returns how many packets were acknowledged in them; BAD if ticks is out of range.");
         due("run(60) of nothing", f.run(60), 0);
         f.give(0, 1);
         due("run(5)", f.run(5), 0);
         due("run(1) in which one comes", f.run(1), 1);
         for (int ticks : new int[] {LEAST, -1, 0, 61, MOST}) {
-            refused("run(" + ticks + ")", EdgeGroup::busy, g -> g.run(ticks), BAD);
+            refused("run(" + ticks + ")", ClauseGroup::busy, g -> g.run(ticks), BAD);
         }
     }
 }

@@ -1,5 +1,5 @@
 /** FAMILIES: numbers, weights, kin, the budget and how it is divided. */
-final class FamilyEdges extends EdgeGroup {
+final class FamilyEdges extends ClauseGroup {
     FamilyEdges(Check check, Doc doc) {
         super(check, doc);
     }
@@ -20,23 +20,23 @@ final class FamilyEdges extends EdgeGroup {
     }
 
     private void numbersAre0To9() {
-        edge("FAMILIES", "Connections have the numbers 0 to 9;");
+        clause("FAMILIES", "Connections have the numbers 0 to 9;");
         ConnectionFamily f = ofTen();
         due("told(5)", f.told(OPEN), 10);
         due("weight of 0", f.property(0, WEIGHT), 1);
         due("weight of 9", f.property(9, WEIGHT), 1);
         for (int c : new int[] {LEAST, -1, 10, MOST}) {
-            refused("property(" + c + ", 1)", EdgeGroup::ofTen, g -> g.property(c, WEIGHT), BAD);
-            refused("give(" + c + ", 1)", EdgeGroup::ofTen, g -> g.give(c, 1), BAD);
+            refused("property(" + c + ", 1)", ClauseGroup::ofTen, g -> g.property(c, WEIGHT), BAD);
+            refused("give(" + c + ", 1)", ClauseGroup::ofTen, g -> g.give(c, 1), BAD);
         }
     }
 
     private void theHeadIsAlwaysOpen() {
-        edge("FAMILIES", "Connection 0, the head, is always open and has no parent;");
+        clause("FAMILIES", "Connection 0, the head, is always open and has no parent;");
         due("told(5)", fresh().told(OPEN), 1);
         due("parent", fresh().property(0, PARENT), NONE);
-        refused("close(0) alone", EdgeGroup::fresh, f -> f.close(0), BAD);
-        refused("close(0) with children", EdgeGroup::ofTen, f -> f.close(0), BAD);
+        refused("close(0) alone", ClauseGroup::fresh, f -> f.close(0), BAD);
+        refused("close(0) with children", ClauseGroup::ofTen, f -> f.close(0), BAD);
         ConnectionFamily f = ofTen();
         for (int c = 9; c >= 1; c--) {
             f.close(c);
@@ -46,7 +46,7 @@ final class FamilyEdges extends EdgeGroup {
     }
 
     private void aParentIsOpen() {
-        edge("FAMILIES", "any other open connection has a parent, which is open.");
+        clause("FAMILIES", "any other open connection has a parent, which is open.");
         ConnectionFamily f = new ConnectionFamily();
         Texts.load(f, "1(1(1(1)))");
         f.close(1);
@@ -56,7 +56,7 @@ final class FamilyEdges extends EdgeGroup {
     }
 
     private void weightsAre1To9() {
-        edge("FAMILIES", "Each has a weight (1 to 9; the head 1 at first).");
+        clause("FAMILIES", "Each has a weight (1 to 9; the head 1 at first).");
         due("weight of the head", fresh().property(0, WEIGHT), 1);
         for (int weight = 1; weight <= 9; weight++) {
             ConnectionFamily f = new ConnectionFamily();
@@ -68,7 +68,7 @@ final class FamilyEdges extends EdgeGroup {
     }
 
     private void kinWithoutAParent() {
-        edge("FAMILIES", "The kin of a connection are its parent, its children, and the other children of its parent.");
+        clause("FAMILIES", "The kin of a connection are its parent, its children, and the other children of its parent.");
         due("kin of the head alone", fresh().kin(0), 0);
         ConnectionFamily f = new ConnectionFamily();
         f.open(0, 1);
@@ -81,7 +81,7 @@ final class FamilyEdges extends EdgeGroup {
     }
 
     private void budgetIs1To200() {
-        edge("FAMILIES", "The family has a budget (1 to 200; 40 at first), a number of packets.");
+        clause("FAMILIES", "The family has a budget (1 to 200; 40 at first), a number of packets.");
         ConnectionFamily f = new ConnectionFamily();
         due("told(1)", f.told(BUDGET), 40);
         due("setBudget(1)", f.setBudget(1), 40);
@@ -91,7 +91,7 @@ final class FamilyEdges extends EdgeGroup {
     }
 
     private void nothingIsLeftToDivide() {
-        edge("FAMILIES", "and of what is left each of them gets one more");
+        clause("FAMILIES", "and of what is left each of them gets one more");
         ConnectionFamily f = new ConnectionFamily();
         due("limit of a head alone", f.property(0, LIMIT), 40);
         Texts.load(f, "1(3 4)");
@@ -101,7 +101,7 @@ final class FamilyEdges extends EdgeGroup {
     }
 
     private void asFarAsItGoes() {
-        edge("FAMILIES", "as far as it goes");
+        clause("FAMILIES", "as far as it goes");
         for (int budget = 1; budget <= 21; budget++) {
             ConnectionFamily f = ofTen();
             f.setBudget(budget);
@@ -114,7 +114,7 @@ final class FamilyEdges extends EdgeGroup {
     }
 
     private void theGreatestRemainderFirst() {
-        edge("FAMILIES", "in the order of their remainders (A * weight) % W, the greatest first;");
+        clause("FAMILIES", "in the order of their remainders (A * weight) % W, the greatest first;");
         ConnectionFamily f = new ConnectionFamily();
         Texts.load(f, "1(2 3)");
         f.setBudget(1);
@@ -128,7 +128,7 @@ final class FamilyEdges extends EdgeGroup {
     }
 
     private void equalRemainders() {
-        edge("FAMILIES", "of equal ones the connection itself comes first, then its children in ascending order.");
+        clause("FAMILIES", "of equal ones the connection itself comes first, then its children in ascending order.");
         ConnectionFamily f = new ConnectionFamily();
         Texts.load(f, "1(2 2)");
         f.setBudget(1);
@@ -152,7 +152,7 @@ final class FamilyEdges extends EdgeGroup {
     }
 
     private void anAmountOfNothing() {
-        edge("FAMILIES", "What a child gets is its amount;");
+        clause("FAMILIES", "What a child gets is its amount;");
         ConnectionFamily f = new ConnectionFamily();
         Texts.load(f, "9(1(1 1))");
         f.setBudget(1);
@@ -161,7 +161,7 @@ final class FamilyEdges extends EdgeGroup {
         f.setBudget(10);
         properties("an amount of 1 is divided", f, AMOUNT, 10, 1, 0, 0);
         properties("an amount of 1 is divided", f, LIMIT, 9, 1, 0, 0);
-        edge("FAMILIES", "what the connection itself gets is its limit.");
+        clause("FAMILIES", "what the connection itself gets is its limit.");
         f.setBudget(200);
         properties("an amount of 20 is divided", f, AMOUNT, 200, 20, 7, 6);
         properties("an amount of 20 is divided", f, LIMIT, 180, 7, 7, 6);

@@ -1,5 +1,5 @@
 /** HISTORY, and the 512 calls for which an object is used. */
-final class HistoryEdges extends EdgeGroup {
+final class HistoryEdges extends ClauseGroup {
     HistoryEdges(Check check, Doc doc) {
         super(check, doc);
     }
@@ -37,7 +37,7 @@ final class HistoryEdges extends EdgeGroup {
     }
 
     private void eachActRecordsOnce() {
-        edge("HISTORY", "Each successful call of load(), open(), close(), give(), setWeight(), setBudget(), setLink() and run()");
+        clause("HISTORY", "Each successful call of load(), open(), close(), give(), setWeight(), setBudget(), setLink() and run()");
         for (int i = 0; i < ACTS.length; i++) {
             for (int states = 0; states <= 5; states++) {
                 ConnectionFamily f = remembering(states);
@@ -57,7 +57,7 @@ final class HistoryEdges extends EdgeGroup {
     }
 
     private void otherCallsRecordNothing() {
-        edge("HISTORY", "records the state (everything but the recorded states and the text buffer) before it.");
+        clause("HISTORY", "records the state (everything but the recorded states and the text buffer) before it.");
         Call[] others = {f -> f.type('1'), f -> f.clear(), f -> f.fault(), f -> f.property(0, 4), f -> f.count(0, 1),
             f -> f.told(0), f -> f.child(0, 0), f -> f.kin(0), f -> f.distance(0, 1), f -> f.inFlight(0, 0, 0),
             f -> f.queued(0), f -> f.due(0), f -> f.fairness(), f -> f.ifBudget(3, 60), f -> f.bestBudget(15),
@@ -78,7 +78,7 @@ final class HistoryEdges extends EdgeGroup {
     }
 
     private void everythingButTheTextBuffer() {
-        edge("HISTORY", "(everything but the recorded states and the text buffer)");
+        clause("HISTORY", "(everything but the recorded states and the text buffer)");
         ConnectionFamily f = new ConnectionFamily();
         f.type('7');
         f.give(0, 1);
@@ -121,7 +121,7 @@ final class HistoryEdges extends EdgeGroup {
     }
 
     private void atMost5() {
-        edge("HISTORY", "At most 5 recorded states are remembered:");
+        clause("HISTORY", "At most 5 recorded states are remembered:");
         ConnectionFamily f = new ConnectionFamily();
         for (int n = 1; n <= 12; n++) {
             f.give(0, n);
@@ -134,7 +134,7 @@ final class HistoryEdges extends EdgeGroup {
     }
 
     private void theOldestIsDropped() {
-        edge("HISTORY", "when one more is recorded, the oldest one is dropped;");
+        clause("HISTORY", "when one more is recorded, the oldest one is dropped;");
         for (int acts = 1; acts <= 12; acts++) {
             ConnectionFamily f = new ConnectionFamily();
             for (int n = 1; n <= acts; n++) {
@@ -150,7 +150,7 @@ final class HistoryEdges extends EdgeGroup {
     }
 
     private void theLatestIsRestoredAndRemoved() {
-        edge("HISTORY", "undo() restores the latest one and removes it.");
+        clause("HISTORY", "undo() restores the latest one and removes it.");
         ConnectionFamily f = new ConnectionFamily();
         f.setBudget(50);
         f.setBudget(60);
@@ -167,7 +167,7 @@ final class HistoryEdges extends EdgeGroup {
     }
 
     private void recordedAgainAfterUndo() {
-        edge("HISTORY", "when one more is recorded, the oldest one is dropped; undo() restores the latest one");
+        clause("HISTORY", "when one more is recorded, the oldest one is dropped; undo() restores the latest one");
         ConnectionFamily f = new ConnectionFamily();
         for (int n = 1; n <= 7; n++) {
             f.give(0, 1);
@@ -187,7 +187,7 @@ final class HistoryEdges extends EdgeGroup {
 
     /** The model of the document answers the 512th call as the class does. */
     private void for512Calls() {
-        edge("What it is", "An object is used for at most 512 calls after it has been made;");
+        clause("What it is", "An object is used for at most 512 calls after it has been made;");
         ConnectionFamily f = new ConnectionFamily();
         Model m = new Model();
         for (int call = 1; call <= 510; call += 2) {

@@ -16,26 +16,44 @@ import java.util.regex.Pattern;
 /** What LANGUAGE.md asks of the class, as far as it can be seen in its text and by reflection. */
 final class LanguageTest {
     private static final Path SOURCE = Path.of("src/main/java/ConnectionFamily.java");
+    private static final Path DOCUMENT = Path.of("../shared/DOC.md");
     private static final int MOST_LINES = 60, MOST_CLASSES = 12, MOST_FIELDS = 20, MOST_PARAMETERS = 7;
     private static final Check CHECK = new Check();
-    private static final String[] FACE = {"type(int)int", "clear()int", "load()int", "fault()int", "open(int,int)int",
-        "close(int)int", "give(int,int)int", "setWeight(int,int)int", "setBudget(int)int", "setLink(int,int)int",
-        "run(int)int", "property(int,int)int", "count(int,int)int", "told(int)int", "child(int,int)int",
-        "kin(int)int", "distance(int,int)int", "inFlight(int,int,int)int", "queued(int)int", "due(int)int",
-        "fairness()int", "ifBudget(int,int)int", "bestBudget(int)int", "ifOpened(int,int,int)int", "undo()int",
-        "digest()long"};
+    private static final Pattern METHOD = Pattern.compile("    public (\\w+) (\\w+)\\((.*)\\);");
+    private static final Pattern CONSTANT = Pattern.compile("([A-Z]+) = (-?\\d+)");
 
     private LanguageTest() {
     }
 
-    public static void main(String[] args) throws IOException {
+    public static void main(String[] args) throws IOException, IllegalAccessException {
         String source = Files.readString(SOURCE);
-        face();
+        String promisedFace = faceOfTheDocument();
+        methodsOfTheFace(promisedFace);
+        constantsOfTheFace(promisedFace);
         nestedClasses();
-        names();
+        names(promisedFace);
         words(withoutComments(source));
         lengths(source);
         CHECK.end();
+    }
+
+    private static String faceOfTheDocument() throws IOException {
+        String text = Files.readString(DOCUMENT);
+        int begin = text.indexOf("```java");
+        int end = text.indexOf("```", begin + 3);
+        CHECK.holds("the document shows the face", begin >= 0 && end > begin);
+        return text.substring(begin, end);
+    }
+
+    private static Set<String> promisedMethods(String promisedFace) {
+        Set<String> found = new TreeSet<>();
+        Matcher method = METHOD.matcher(promisedFace);
+        while (method.find()) {
+            String types = method.group(3).replaceAll(" \\w+(,|$)", "$1").replace(", ", ",");
+            found.add(method.group(2) + "(" + types + ")" + method.group(1));
+        }
+        CHECK.due("methods of the document", found.size(), 26);
+        return found;
     }
 
     private static List<Class<?>> allClasses() {
@@ -44,7 +62,7 @@ final class LanguageTest {
         return all;
     }
 
-    private static void face() {
+    private static void methodsOfTheFace(String promisedFace) {
         Class<?> face = ConnectionFamily.class;
         CHECK.holds("the class is public and final", face.getModifiers() == (Modifier.PUBLIC | Modifier.FINAL));
         Set<String> seen = new TreeSet<>();
@@ -54,20 +72,32 @@ final class LanguageTest {
                 seen.add(signature(method));
             }
         }
-        CHECK.holds("the public methods are those of the document: " + seen, seen.equals(Set.of(FACE)));
+        Set<String> promised = promisedMethods(promisedFace);
+        CHECK.holds("the public methods " + seen + " are those of the document: " + promised, seen.equals(promised));
         Constructor<?>[] constructors = face.getDeclaredConstructors();
         CHECK.due("constructors", constructors.length, 1);
         CHECK.holds("the constructor", Modifier.isPublic(constructors[0].getModifiers())
-            && constructors[0].getParameterCount() == 0);
-        Set<String> constants = new TreeSet<>();
-        for (Field field : face.getDeclaredFields()) {
-            if (!Modifier.isPrivate(field.getModifiers())) {
-                constants.add(field.getName());
-            }
-            CHECK.holds(field + " is final if it is static",
-                !Modifier.isStatic(field.getModifiers()) || Modifier.isFinal(field.getModifiers()));
+            && constructors[0].getParameterCount() == 0 && promisedFace.contains("    public ConnectionFamily();"));
+    }
+
+    private static void constantsOfTheFace(String promisedFace) throws IllegalAccessException {
+        Set<String> promised = new TreeSet<>();
+        Matcher constant = CONSTANT.matcher(promisedFace);
+        while (constant.find()) {
+            promised.add(constant.group());
         }
-        CHECK.holds("the constants: " + constants, constants.equals(Set.of("BAD", "STATE", "FULL", "NONE")));
+        CHECK.due("constants of the document", promised.size(), 4);
+        Set<String> seen = new TreeSet<>();
+        for (Field field : ConnectionFamily.class.getDeclaredFields()) {
+            boolean isStatic = Modifier.isStatic(field.getModifiers());
+            CHECK.holds(field + " is final if it is static", !isStatic || Modifier.isFinal(field.getModifiers()));
+            if (!Modifier.isPrivate(field.getModifiers())) {
+                CHECK.holds(field + " is a constant of int", isStatic && Modifier.isPublic(field.getModifiers())
+                    && field.getType() == int.class);
+                seen.add(field.getName() + " = " + field.get(null));
+            }
+        }
+        CHECK.holds("the constants " + seen + " are those of the document: " + promised, seen.equals(promised));
     }
 
     private static String signature(Method method) {
@@ -91,9 +121,9 @@ final class LanguageTest {
         }
     }
 
-    private static void names() {
+    private static void names(String promisedFace) {
         Set<String> taken = new TreeSet<>();
-        for (String signature : FACE) {
+        for (String signature : promisedMethods(promisedFace)) {
             taken.add(signature.substring(0, signature.indexOf('(')));
         }
         for (Class<?> one : allClasses()) {

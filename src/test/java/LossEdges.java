@@ -1,5 +1,5 @@
 /** TICKS: how losses are found, and what they do to a connection and its kin. */
-final class LossEdges extends EdgeGroup {
+final class LossEdges extends ClauseGroup {
     LossEdges(Check check, Doc doc) {
         super(check, doc);
     }
@@ -23,7 +23,7 @@ final class LossEdges extends EdgeGroup {
     }
 
     private void timeoutAtItsTick() {
-        edge("TICKS", "that has a flight whose first packet was sent at tick t - timeout or before:");
+        clause("TICKS", "that has a flight whose first packet was sent at tick t - timeout or before:");
         for (int sentAt : new int[] {0, 1, 7, 19}) {
             ConnectionFamily f = new ConnectionFamily();
             runUntil(f, sentAt);
@@ -46,7 +46,7 @@ final class LossEdges extends EdgeGroup {
 
     /** The head gets the shorter timeout of its child when that one is closed. */
     private void timeoutAfterItsTick() {
-        edge("TICKS", "was sent at tick t - timeout or before:");
+        clause("TICKS", "was sent at tick t - timeout or before:");
         ConnectionFamily f = new ConnectionFamily();
         sendWithDelay(f, 0, 30);
         f.open(0, 1);
@@ -62,7 +62,7 @@ final class LossEdges extends EdgeGroup {
     }
 
     private void timeoutOfTheWholeFlight() {
-        edge("TICKS", "all packets of the flight are found lost, and there is a timeout loss.");
+        clause("TICKS", "all packets of the flight are found lost, and there is a timeout loss.");
         ConnectionFamily f = new ConnectionFamily();
         sendWithDelay(f, 0, 30);
         f.run(8);
@@ -77,7 +77,7 @@ final class LossEdges extends EdgeGroup {
     }
 
     private void noTimeoutWithoutAFlight() {
-        edge("TICKS", "For each open connection, in ascending order, that has a flight");
+        clause("TICKS", "For each open connection, in ascending order, that has a flight");
         ConnectionFamily f = ofTen();
         f.run(60);
         for (int c = 0; c <= 9; c++) {
@@ -98,7 +98,7 @@ final class LossEdges extends EdgeGroup {
     }
 
     private void noGapBelowTheMark() {
-        edge("TICKS", "and if the first one of them has a number of at least the mark, there is a gap loss.");
+        clause("TICKS", "and if the first one of them has a number of at least the mark, there is a gap loss.");
         ConnectionFamily f = beforeGaps();
         sendWithDelay(f, 0, 30);
         sendWithDelay(f, 0, 2);
@@ -118,7 +118,7 @@ final class LossEdges extends EdgeGroup {
     }
 
     private void gapAtTheMark() {
-        edge("TICKS", "has a number of at least the mark");
+        clause("TICKS", "has a number of at least the mark");
         ConnectionFamily f = beforeGaps();
         sendWithDelay(f, 0, 30);
         sendWithDelay(f, 0, 1);
@@ -156,7 +156,7 @@ final class LossEdges extends EdgeGroup {
     }
 
     private void thresholdByAGap() {
-        edge("TICKS", "By a gap loss the threshold becomes credit / 32, but at least 2;");
+        clause("TICKS", "By a gap loss the threshold becomes credit / 32, but at least 2;");
         for (int[] one : THRESHOLDS) {
             ConnectionFamily f = ofCredit(one[0]);
             due("credit before", f.property(0, CREDIT), one[0]);
@@ -171,7 +171,7 @@ final class LossEdges extends EdgeGroup {
     }
 
     private void thresholdByATimeout() {
-        edge("TICKS", "By a timeout loss the threshold becomes credit / 32, but at least 2;");
+        clause("TICKS", "By a timeout loss the threshold becomes credit / 32, but at least 2;");
         for (int[] one : THRESHOLDS) {
             ConnectionFamily f = ofCredit(one[0]);
             due("credit before", f.property(0, CREDIT), one[0]);
@@ -208,7 +208,7 @@ final class LossEdges extends EdgeGroup {
     }
 
     private void backoffIs6AtMost() {
-        edge("TICKS", "the backoff becomes one more (6 at most);");
+        clause("TICKS", "the backoff becomes one more (6 at most);");
         for (int n = 0; n <= 9; n++) {
             ConnectionFamily f = afterTimeouts(n);
             due("timeouts", f.count(1, TIMEOUTS), n);
@@ -218,7 +218,7 @@ final class LossEdges extends EdgeGroup {
     }
 
     private void backoffEnds() {
-        edge("TICKS", "and the backoff 0.");
+        clause("TICKS", "and the backoff 0.");
         ConnectionFamily f = afterTimeouts(7);
         runUntil(f, f.due(1));
         f.setLink(2, 1);
@@ -230,7 +230,7 @@ final class LossEdges extends EdgeGroup {
     }
 
     private void penaltyByAGap() {
-        edge("TICKS", "the penalty grows by 2, that of each of its kin by 1.");
+        clause("TICKS", "the penalty grows by 2, that of each of its kin by 1.");
         ConnectionFamily f = new ConnectionFamily();
         Texts.load(f, "1(1(1(1)1)1(1))");
         // the credit of 2 grows from 4 to 68; its limit is 2
@@ -244,7 +244,7 @@ final class LossEdges extends EdgeGroup {
     }
 
     private void penaltyByATimeout() {
-        edge("TICKS", "the penalty grows by 4, that of each of its kin by 2.");
+        clause("TICKS", "the penalty grows by 4, that of each of its kin by 2.");
         ConnectionFamily f = new ConnectionFamily();
         Texts.load(f, "1(1(1(1)1)1(1))");
         sendWithDelay(f, 2, 30);
@@ -294,7 +294,7 @@ final class LossEdges extends EdgeGroup {
     }
 
     private void penaltiesAre12AtMost() {
-        edge("TICKS", "Penalties are 12 at most.");
+        clause("TICKS", "Penalties are 12 at most.");
         // by timeouts at tick 47: 2 of each child for the head; 4 of its own and 2 of each other for a child
         int[][] byTimeouts = {{1, 2, 4}, {3, 6, 8}, {4, 8, 10}, {5, 10, 12}, {6, 12, 12}};
         for (int[] one : byTimeouts) {
@@ -323,7 +323,7 @@ final class LossEdges extends EdgeGroup {
     }
 
     private void markByBoth() {
-        edge("TICKS", "By both, the mark becomes the number of the next packet that the connection will send.");
+        clause("TICKS", "By both, the mark becomes the number of the next packet that the connection will send.");
         ConnectionFamily f = new ConnectionFamily();
         sendWithDelay(f, 0, 30);
         f.run(9);

@@ -1,5 +1,5 @@
 /** OPENING AND CLOSING: what a new connection gets, and what a closed one gives back. */
-final class OpeningEdges extends EdgeGroup {
+final class OpeningEdges extends ClauseGroup {
     private static final String OPENING = "OPENING AND CLOSING";
 
     OpeningEdges(Check check, Doc doc) {
@@ -28,7 +28,7 @@ final class OpeningEdges extends EdgeGroup {
     }
 
     private void smallestNumberNotOpen() {
-        edge(OPENING, "A connection that is opened gets the smallest number that is not open");
+        clause(OPENING, "A connection that is opened gets the smallest number that is not open");
         ConnectionFamily f = new ConnectionFamily();
         for (int c = 1; c <= 9; c++) {
             due("open(0, 1)", f.open(0, 1), c);
@@ -44,7 +44,7 @@ final class OpeningEdges extends EdgeGroup {
     }
 
     private void noBacklog() {
-        edge(OPENING, "and no backlog.");
+        clause(OPENING, "and no backlog.");
         ConnectionFamily f = new ConnectionFamily();
         f.open(0, 1);
         f.give(1, 7);
@@ -56,7 +56,7 @@ final class OpeningEdges extends EdgeGroup {
     }
 
     private void creditIsRoundedDown() {
-        edge(OPENING, "Its credit is that of its parent, times its weight, divided by the sum of its weight and that of its parent;");
+        clause(OPENING, "Its credit is that of its parent, times its weight, divided by the sum of its weight and that of its parent;");
         int[][] weightsCredit = {{1, 1, 16}, {1, 9, 28}, {9, 1, 3}, {9, 9, 16}, {2, 1, 10}, {1, 2, 21}, {5, 3, 12}};
         for (int[] one : weightsCredit) {
             ConnectionFamily f = new ConnectionFamily();
@@ -65,13 +65,13 @@ final class OpeningEdges extends EdgeGroup {
             due("credit by weights " + one[0] + " and " + one[1], f.property(1, CREDIT), one[2]);
             due("the parent has so much less", f.property(0, CREDIT), 32 - one[2]);
         }
-        edge(OPENING, "the parent has so much less.");
+        clause(OPENING, "the parent has so much less.");
         ConnectionFamily f = ofTen();
         due("all credits of ten", f.told(CREDITS), 32);
     }
 
     private void creditOfNothing() {
-        edge(OPENING, "Its credit is that of its parent, times its weight");
+        clause(OPENING, "Its credit is that of its parent, times its weight");
         ConnectionFamily f = new ConnectionFamily();
         int last = 0;
         int[] credits = {16, 8, 4, 2, 1, 0, 0, 0, 0};
@@ -84,7 +84,7 @@ final class OpeningEdges extends EdgeGroup {
     }
 
     private void estimatesOnlyIfTheParentHasThem() {
-        edge(OPENING, "S as its parent, V twice as great (if the parent has estimates)");
+        clause(OPENING, "S as its parent, V twice as great (if the parent has estimates)");
         ConnectionFamily f = new ConnectionFamily();
         f.open(0, 1);
         due("S without estimates", f.property(1, S), NONE);
@@ -102,7 +102,7 @@ final class OpeningEdges extends EdgeGroup {
     }
 
     private void estimatesWithoutSamples() {
-        edge(OPENING, "the number of samples 0 (it has estimates, though, if its parent has;");
+        clause(OPENING, "the number of samples 0 (it has estimates, though, if its parent has;");
         ConnectionFamily f = new ConnectionFamily();
         trips(f, 0, 1);
         f.open(0, 1);
@@ -115,7 +115,7 @@ final class OpeningEdges extends EdgeGroup {
     }
 
     private void firstSampleReplaces() {
-        edge(OPENING, "its first sample replaces them), the backoff 0 and the mark 0");
+        clause(OPENING, "its first sample replaces them), the backoff 0 and the mark 0");
         ConnectionFamily f = new ConnectionFamily();
         trips(f, 0, 1);
         f.open(0, 1);
@@ -129,7 +129,7 @@ final class OpeningEdges extends EdgeGroup {
     }
 
     private void startsAnew() {
-        edge(OPENING, "and its packets are numbered from 0.");
+        clause(OPENING, "and its packets are numbered from 0.");
         ConnectionFamily f = new ConnectionFamily();
         sendWithDelay(f, 0, 30);
         f.run(10);
@@ -140,14 +140,14 @@ final class OpeningEdges extends EdgeGroup {
         due("next", f.property(1, NEXT), 0);
         due("mark", f.property(1, MARK), 0);
         due("backoff", f.property(1, BACKOFF), 0);
-        edge(OPENING, "It has the threshold and the penalty of its parent");
+        clause(OPENING, "It has the threshold and the penalty of its parent");
         due("threshold", f.property(1, THRESHOLD), 2);
         due("penalty", f.property(1, PENALTY), 4);
     }
 
     /** Connection 1 has had a gap loss and, without a limit to send again, a timeout loss when it is closed. */
     private void startsAnewAfterAWornOne() {
-        edge(OPENING, "the backoff 0 and the mark 0, and its packets are numbered from 0.");
+        clause(OPENING, "the backoff 0 and the mark 0, and its packets are numbered from 0.");
         ConnectionFamily f = new ConnectionFamily();
         f.open(0, 9);
         trips(f, 1, 1);
@@ -179,7 +179,7 @@ final class OpeningEdges extends EdgeGroup {
     }
 
     private void childrenOfAClosedOne() {
-        edge(OPENING, "When a connection is closed, its children become children of its parent.");
+        clause(OPENING, "When a connection is closed, its children become children of its parent.");
         ConnectionFamily f = new ConnectionFamily();
         Texts.load(f, "1(1(1 1(1)))");
         due("close() of one without children", f.close(2), 1);
@@ -205,7 +205,7 @@ final class OpeningEdges extends EdgeGroup {
     }
 
     private void creditTo1024AtMost() {
-        edge(OPENING, "The parent gets its credit (to 1024 at most)");
+        clause(OPENING, "The parent gets its credit (to 1024 at most)");
         ConnectionFamily f = ofHalves();
         f.close(1);
         due("512 and 512", f.property(0, CREDIT), 1024);
@@ -229,7 +229,7 @@ final class OpeningEdges extends EdgeGroup {
     }
 
     private void backlogTo9999AtMost() {
-        edge(OPENING, "and its backlog (to 9999 at most)");
+        clause(OPENING, "and its backlog (to 9999 at most)");
         int[][] backlogs = {{0, 0, 0}, {0, 9999, 9999}, {5000, 4998, 9998}, {5000, 4999, 9999}, {5000, 5000, 9999},
             {9999, 9999, 9999}};
         for (int[] one : backlogs) {
@@ -243,7 +243,7 @@ final class OpeningEdges extends EdgeGroup {
     }
 
     private void theGreaterPenalty() {
-        edge(OPENING, "and the greater one of both penalties.");
+        clause(OPENING, "and the greater one of both penalties.");
         for (int loser = 0; loser <= 1; loser++) {
             ConnectionFamily f = new ConnectionFamily();
             f.open(0, 1);
@@ -265,7 +265,7 @@ final class OpeningEdges extends EdgeGroup {
     }
 
     private void closedWithoutSamples() {
-        edge(OPENING, "If the closed one has samples:");
+        clause(OPENING, "If the closed one has samples:");
         ConnectionFamily f = new ConnectionFamily();
         f.open(0, 1);
         f.close(1);
@@ -284,7 +284,7 @@ final class OpeningEdges extends EdgeGroup {
     }
 
     private void parentWithoutSamples() {
-        edge(OPENING, "if the parent has none, the parent gets its S, V and number of samples;");
+        clause(OPENING, "if the parent has none, the parent gets its S, V and number of samples;");
         ConnectionFamily f = new ConnectionFamily();
         f.open(0, 1);
         trips(f, 1, 3);
@@ -304,7 +304,7 @@ final class OpeningEdges extends EdgeGroup {
     }
 
     private void bothWithSamples() {
-        edge(OPENING, "S becomes (m * S of the parent + n * S of the closed one) / (m + n), V likewise");
+        clause(OPENING, "S becomes (m * S of the parent + n * S of the closed one) / (m + n), V likewise");
         ConnectionFamily f = new ConnectionFamily();
         f.open(0, 1);
         trips(f, 0, 1);
@@ -318,7 +318,7 @@ final class OpeningEdges extends EdgeGroup {
     }
 
     private void samplesTo16AtMost() {
-        edge(OPENING, "and the number of samples becomes m + n, but at most 16.");
+        clause(OPENING, "and the number of samples becomes m + n, but at most 16.");
         int[][] samples = {{7, 8, 15}, {8, 8, 16}, {8, 9, 16}, {1, 15, 16}, {1, 16, 16}, {16, 16, 16}};
         for (int[] one : samples) {
             ConnectionFamily f = onFastLink();

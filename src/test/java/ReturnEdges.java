@@ -1,5 +1,5 @@
 /** RETURN VALUES: the codes, their order, and that a refused call changes nothing. */
-final class ReturnEdges extends EdgeGroup {
+final class ReturnEdges extends ClauseGroup {
     ReturnEdges(Check check, Doc doc) {
         super(check, doc);
     }
@@ -18,7 +18,7 @@ final class ReturnEdges extends EdgeGroup {
 
     /** The states in which calls are refused have something that a refused call could spoil. */
     private void statesToStartFrom() {
-        edge("RETURN VALUES", "changes nothing (but see load()).");
+        clause("RETURN VALUES", "changes nothing (but see load()).");
         ConnectionFamily f = busy();
         for (int what : new int[] {FLIGHTS, QUEUE, ON_WAY, LATE}) {
             due("told(" + what + ") of the busy one is above 0", f.told(what) > 0 ? 1 : 0, 1);
@@ -36,7 +36,7 @@ final class ReturnEdges extends EdgeGroup {
     }
 
     private void badIsOutOfRangeOrNoSuchConnection() {
-        edge("RETURN VALUES", "BAD (-1): an argument is out of range, or there is no such connection;");
+        clause("RETURN VALUES", "BAD (-1): an argument is out of range, or there is no such connection;");
         due("BAD", ConnectionFamily.BAD, -1);
         due("out of range", fresh().run(0), -1);
         due("no such connection", fresh().kin(1), -1);
@@ -44,7 +44,7 @@ final class ReturnEdges extends EdgeGroup {
     }
 
     private void stateIsNotPossibleAtPresent() {
-        edge("RETURN VALUES", "STATE (-2): the call is not possible at present, as the method says;");
+        clause("RETURN VALUES", "STATE (-2): the call is not possible at present, as the method says;");
         due("STATE", ConnectionFamily.STATE, -2);
         due("close() of one with a flight", busy().close(1), -2);
         due("setBudget() below the flights", busy().setBudget(1), -2);
@@ -52,7 +52,7 @@ final class ReturnEdges extends EdgeGroup {
     }
 
     private void fullIsALimitReached() {
-        edge("RETURN VALUES", "FULL (-3): a limit is reached.");
+        clause("RETURN VALUES", "FULL (-3): a limit is reached.");
         due("FULL", ConnectionFamily.FULL, -3);
         due("type()", full().type('1'), -3);
         due("open()", full().open(0, 1), -3);
@@ -61,51 +61,51 @@ final class ReturnEdges extends EdgeGroup {
     }
 
     private void theFirstOfSeveralIsReturned() {
-        edge("RETURN VALUES", "If several of them apply to a call, the first one in this order is returned.");
-        refused("type(31) in a full buffer", EdgeGroup::full, f -> f.type(31), BAD);
-        refused("type(127) in a full buffer", EdgeGroup::full, f -> f.type(127), BAD);
-        refused("open(10, 1) of an 11th", EdgeGroup::full, f -> f.open(10, 1), BAD);
-        refused("open(0, 0) of an 11th", EdgeGroup::full, f -> f.open(0, 0), BAD);
-        refused("open(9, 10) of an 11th", EdgeGroup::full, f -> f.open(9, 10), BAD);
-        refused("give(0, 501) above 9999", EdgeGroup::full, f -> f.give(0, 501), BAD);
-        refused("give(0, 0) at 9999", EdgeGroup::full, f -> f.give(0, 0), BAD);
-        refused("setBudget(0) below the flights", EdgeGroup::busy, f -> f.setBudget(0), BAD);
-        refused("setBudget(least) below the flights", EdgeGroup::busy, f -> f.setBudget(LEAST), BAD);
-        refused("ifOpened(0, 0, 0) of an 11th", EdgeGroup::full, f -> f.ifOpened(0, 0, 0), BAD);
-        refused("ifOpened(10, 1, 0) of an 11th", EdgeGroup::full, f -> f.ifOpened(10, 1, 0), BAD);
-        refused("ifOpened(0, 1, 10) of an 11th", EdgeGroup::full, f -> f.ifOpened(0, 1, 10), BAD);
+        clause("RETURN VALUES", "If several of them apply to a call, the first one in this order is returned.");
+        refused("type(31) in a full buffer", ClauseGroup::full, f -> f.type(31), BAD);
+        refused("type(127) in a full buffer", ClauseGroup::full, f -> f.type(127), BAD);
+        refused("open(10, 1) of an 11th", ClauseGroup::full, f -> f.open(10, 1), BAD);
+        refused("open(0, 0) of an 11th", ClauseGroup::full, f -> f.open(0, 0), BAD);
+        refused("open(9, 10) of an 11th", ClauseGroup::full, f -> f.open(9, 10), BAD);
+        refused("give(0, 501) above 9999", ClauseGroup::full, f -> f.give(0, 501), BAD);
+        refused("give(0, 0) at 9999", ClauseGroup::full, f -> f.give(0, 0), BAD);
+        refused("setBudget(0) below the flights", ClauseGroup::busy, f -> f.setBudget(0), BAD);
+        refused("setBudget(least) below the flights", ClauseGroup::busy, f -> f.setBudget(LEAST), BAD);
+        refused("ifOpened(0, 0, 0) of an 11th", ClauseGroup::full, f -> f.ifOpened(0, 0, 0), BAD);
+        refused("ifOpened(10, 1, 0) of an 11th", ClauseGroup::full, f -> f.ifOpened(10, 1, 0), BAD);
+        refused("ifOpened(0, 1, 10) of an 11th", ClauseGroup::full, f -> f.ifOpened(0, 1, 10), BAD);
     }
 
     private void aRefusedCallChangesNothing() {
-        edge("RETURN VALUES", "A call that returns an error code, or -10 or less, changes nothing");
-        refused("close(1) with a flight", EdgeGroup::busy, f -> f.close(1), STATE);
-        refused("setBudget(1) below the flights", EdgeGroup::busy, f -> f.setBudget(1), STATE);
-        refused("undo() of nothing", EdgeGroup::fresh, f -> f.undo(), STATE);
-        refused("type() in a full buffer", EdgeGroup::full, f -> f.type('2'), FULL);
-        refused("open() of an 11th", EdgeGroup::full, f -> f.open(9, 9), FULL);
-        refused("give() above 9999", EdgeGroup::full, f -> f.give(0, 1), FULL);
-        refused("ifOpened() of an 11th", EdgeGroup::full, f -> f.ifOpened(0, 1, NONE), FULL);
-        refused("load() of a fault", EdgeGroup::busy, f -> f.load(), -12);
+        clause("RETURN VALUES", "A call that returns an error code, or -10 or less, changes nothing");
+        refused("close(1) with a flight", ClauseGroup::busy, f -> f.close(1), STATE);
+        refused("setBudget(1) below the flights", ClauseGroup::busy, f -> f.setBudget(1), STATE);
+        refused("undo() of nothing", ClauseGroup::fresh, f -> f.undo(), STATE);
+        refused("type() in a full buffer", ClauseGroup::full, f -> f.type('2'), FULL);
+        refused("open() of an 11th", ClauseGroup::full, f -> f.open(9, 9), FULL);
+        refused("give() above 9999", ClauseGroup::full, f -> f.give(0, 1), FULL);
+        refused("ifOpened() of an 11th", ClauseGroup::full, f -> f.ifOpened(0, 1, NONE), FULL);
+        refused("load() of a fault", ClauseGroup::busy, f -> f.load(), -12);
     }
 
     private void noneOnlyIfNoErrorApplies() {
-        edge("RETURN VALUES", "NONE (-9) is not an error code:");
+        clause("RETURN VALUES", "NONE (-9) is not an error code:");
         due("NONE", ConnectionFamily.NONE, -9);
         due("property(0, 0)", fresh().property(0, PARENT), -9);
-        edge("RETURN VALUES", "it means that there is no such value, and is returned only if no error code applies.");
-        refused("child(1, 5) of a closed one", EdgeGroup::fresh, f -> f.child(1, 5), BAD);
-        refused("inFlight(1, 5, 0) of a closed one", EdgeGroup::fresh, f -> f.inFlight(1, 5, 0), BAD);
-        refused("inFlight(0, 5, 2)", EdgeGroup::fresh, f -> f.inFlight(0, 5, 2), BAD);
-        refused("inFlight(0, 5, -1)", EdgeGroup::fresh, f -> f.inFlight(0, 5, -1), BAD);
-        refused("property(1, 0) of a closed one", EdgeGroup::fresh, f -> f.property(1, PARENT), BAD);
-        refused("property(1, 12) of a closed one", EdgeGroup::fresh, f -> f.property(1, S), BAD);
-        refused("due(1) of a closed one", EdgeGroup::fresh, f -> f.due(1), BAD);
-        changesNothing("child(0, 5)", EdgeGroup::busy, f -> f.child(0, 5));
-        changesNothing("queued(60)", EdgeGroup::busy, f -> f.queued(60));
+        clause("RETURN VALUES", "it means that there is no such value, and is returned only if no error code applies.");
+        refused("child(1, 5) of a closed one", ClauseGroup::fresh, f -> f.child(1, 5), BAD);
+        refused("inFlight(1, 5, 0) of a closed one", ClauseGroup::fresh, f -> f.inFlight(1, 5, 0), BAD);
+        refused("inFlight(0, 5, 2)", ClauseGroup::fresh, f -> f.inFlight(0, 5, 2), BAD);
+        refused("inFlight(0, 5, -1)", ClauseGroup::fresh, f -> f.inFlight(0, 5, -1), BAD);
+        refused("property(1, 0) of a closed one", ClauseGroup::fresh, f -> f.property(1, PARENT), BAD);
+        refused("property(1, 12) of a closed one", ClauseGroup::fresh, f -> f.property(1, S), BAD);
+        refused("due(1) of a closed one", ClauseGroup::fresh, f -> f.due(1), BAD);
+        changesNothing("child(0, 5)", ClauseGroup::busy, f -> f.child(0, 5));
+        changesNothing("queued(60)", ClauseGroup::busy, f -> f.queued(60));
     }
 
     private void quotientsAreRoundedDown() {
-        edge("RETURN VALUES", "Quotients of whole numbers are rounded down.");
+        clause("RETURN VALUES", "Quotients of whole numbers are rounded down.");
         ConnectionFamily f = new ConnectionFamily();
         f.open(0, 2);
         due("credit: 32 * 2 / 3", f.property(1, CREDIT), 21);

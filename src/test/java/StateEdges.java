@@ -1,5 +1,5 @@
 /** STATE OF A CONNECTION and THE LINK: what is at first, the ranges, the window and the timeout. */
-final class StateEdges extends EdgeGroup {
+final class StateEdges extends ClauseGroup {
     private static final String STATES = "STATE OF A CONNECTION";
 
     StateEdges(Check check, Doc doc) {
@@ -29,7 +29,7 @@ final class StateEdges extends EdgeGroup {
     }
 
     private void backlogIs0To9999() {
-        edge(STATES, "The backlog is the number of packets that are still to be sent (0 to 9999).");
+        clause(STATES, "The backlog is the number of packets that are still to be sent (0 to 9999).");
         due("at first", fresh().property(0, BACKLOG), 0);
         ConnectionFamily f = new ConnectionFamily();
         fillBacklog(f, 0, 9998);
@@ -45,7 +45,7 @@ final class StateEdges extends EdgeGroup {
     }
 
     private void packetsAreNumberedFrom0() {
-        edge(STATES, "each packet of a connection has a number, from 0.");
+        clause(STATES, "each packet of a connection has a number, from 0.");
         ConnectionFamily f = new ConnectionFamily();
         due("the next one at first", f.property(0, NEXT), 0);
         f.open(0, 1);
@@ -59,7 +59,7 @@ final class StateEdges extends EdgeGroup {
     }
 
     private void creditIsAtMost1024() {
-        edge(STATES, "The credit is a number of sixteenths of a packet, at most 1024 (32 for the head at first);");
+        clause(STATES, "The credit is a number of sixteenths of a packet, at most 1024 (32 for the head at first);");
         due("credit", fresh().property(0, CREDIT), 32);
         ConnectionFamily f = ofCredit1023();
         due("credit after 541 packets", f.property(0, CREDIT), 1023);
@@ -80,12 +80,12 @@ final class StateEdges extends EdgeGroup {
     }
 
     private void thresholdAtFirst() {
-        edge(STATES, "the threshold is a number of packets (32 for the head at first).");
+        clause(STATES, "the threshold is a number of packets (32 for the head at first).");
         due("threshold", fresh().property(0, THRESHOLD), 32);
     }
 
     private void samplesAre0To16() {
-        edge(STATES, "and a number of samples (0 to 16);");
+        clause(STATES, "and a number of samples (0 to 16);");
         ConnectionFamily f = onFastLink();
         for (int n = 0; n <= 20; n++) {
             due("samples after " + n, f.property(0, SAMPLES), Math.min(16, n));
@@ -94,7 +94,7 @@ final class StateEdges extends EdgeGroup {
     }
 
     private void noEstimatesAtFirst() {
-        edge(STATES, "there are none at first.");
+        clause(STATES, "there are none at first.");
         due("S", fresh().property(0, S), NONE);
         due("V", fresh().property(0, V), NONE);
         due("samples", fresh().property(0, SAMPLES), 0);
@@ -109,14 +109,14 @@ final class StateEdges extends EdgeGroup {
     }
 
     private void backoffPenaltyAndMarkAtFirst() {
-        edge(STATES, "There are a backoff (0 to 6; 0 at first), a penalty (0 to 12; 0 at first), and a mark (0 at first).");
+        clause(STATES, "There are a backoff (0 to 6; 0 at first), a penalty (0 to 12; 0 at first), and a mark (0 at first).");
         due("backoff", fresh().property(0, BACKOFF), 0);
         due("penalty", fresh().property(0, PENALTY), 0);
         due("mark", fresh().property(0, MARK), 0);
     }
 
     private void windowIsTheSmallerOne() {
-        edge(STATES, "The window is the smaller one of credit / 16 and the limit");
+        clause(STATES, "The window is the smaller one of credit / 16 and the limit");
         ConnectionFamily f = onFastLink();
         trips(f, 0, 2);
         due("credit", f.property(0, CREDIT), 64);
@@ -133,7 +133,7 @@ final class StateEdges extends EdgeGroup {
     }
 
     private void windowIsAtLeast1() {
-        edge(STATES, "but at least 1, if the limit is at least 1 (and 0, if the limit is 0).");
+        clause(STATES, "but at least 1, if the limit is at least 1 (and 0, if the limit is 0).");
         ConnectionFamily f = ofTen();
         // the credits are 1, 16, 8, 4, 2, 1, 0, 0, 0, 0
         properties("halves of halves", f, CREDIT, 1, 16, 8, 4, 2, 1, 0, 0, 0, 0);
@@ -172,7 +172,7 @@ final class StateEdges extends EdgeGroup {
     }
 
     private void windowByPenalty() {
-        edge(STATES, "times (16 - penalty), divided by 16;");
+        clause(STATES, "times (16 - penalty), divided by 16;");
         for (int children = 1; children <= 7; children++) {
             ConnectionFamily f = afterTimeoutsOfChildren(children, 15);
             int penalty = Math.min(12, 2 * children);
@@ -191,12 +191,12 @@ final class StateEdges extends EdgeGroup {
     }
 
     private void timeoutWithoutEstimates() {
-        edge(STATES, "The timeout is 10 if there are no estimates");
+        clause(STATES, "The timeout is 10 if there are no estimates");
         due("timeout", fresh().property(0, TIMEOUT), 10);
         ConnectionFamily f = new ConnectionFamily();
         f.open(0, 1);
         due("timeout of a child", f.property(1, TIMEOUT), 10);
-        edge(STATES, "otherwise S / 8 + V");
+        clause(STATES, "otherwise S / 8 + V");
         trips(f, 0, 1);
         due("5 + 10", f.property(0, TIMEOUT), 15);
         due("its child has none still", f.property(1, TIMEOUT), 10);
@@ -204,7 +204,7 @@ final class StateEdges extends EdgeGroup {
 
     /** No trip is shorter than 1 tick, and V never falls below 2: the timeout can't be below 3, at its smallest. */
     private void timeoutIsAtLeast2() {
-        edge(STATES, "but at least 2;");
+        clause(STATES, "but at least 2;");
         ConnectionFamily f = onFastLink();
         for (int i = 0; i < 40; i++) {
             trips(f, 0, 1);
@@ -234,11 +234,11 @@ final class StateEdges extends EdgeGroup {
     }
 
     private void timeoutIsAtMost400() {
-        edge(STATES, "times 2 to the power of the backoff;");
+        clause(STATES, "times 2 to the power of the backoff;");
         ConnectionFamily f = new ConnectionFamily();
         f.open(0, 1);
         timeoutsByBackoff(f, 10, 20, 40, 80, 160, 320, 400, 400);
-        edge(STATES, "but at most 400.");
+        clause(STATES, "but at most 400.");
         ConnectionFamily g = new ConnectionFamily();
         trips(g, 0, 1);
         runUntil(g, 10);
@@ -248,7 +248,7 @@ final class StateEdges extends EdgeGroup {
     }
 
     private void timeoutOfGreatV() {
-        edge(STATES, "otherwise S / 8 + V, but at least 2; times 2 to the power of the backoff; but at most 400.");
+        clause(STATES, "otherwise S / 8 + V, but at least 2; times 2 to the power of the backoff; but at most 400.");
         ConnectionFamily f = new ConnectionFamily();
         trips(f, 0, 1);
         int last = 0;
@@ -266,43 +266,43 @@ final class StateEdges extends EdgeGroup {
     }
 
     private void capacityIs1To60() {
-        edge("THE LINK", "has a queue of some capacity (1 to 60; 20 at first)");
+        clause("THE LINK", "has a queue of some capacity (1 to 60; 20 at first)");
         ConnectionFamily f = new ConnectionFamily();
         due("told(2)", f.told(CAPACITY), 20);
         due("setLink(0, 60)", f.setLink(0, 60), 20);
         due("setLink(0, 1)", f.setLink(0, 1), 60);
         due("told(2)", f.told(CAPACITY), 1);
         for (int v : new int[] {LEAST, -1, 0, 61, MOST}) {
-            refused("setLink(0, " + v + ")", EdgeGroup::busy, g -> g.setLink(0, v), BAD);
+            refused("setLink(0, " + v + ")", ClauseGroup::busy, g -> g.setLink(0, v), BAD);
         }
     }
 
     private void rateIs1To8() {
-        edge("THE LINK", "a rate (1 to 8; 2)");
+        clause("THE LINK", "a rate (1 to 8; 2)");
         ConnectionFamily f = new ConnectionFamily();
         due("told(3)", f.told(RATE), 2);
         due("setLink(1, 8)", f.setLink(1, 8), 2);
         due("setLink(1, 1)", f.setLink(1, 1), 8);
         due("told(3)", f.told(RATE), 1);
         for (int v : new int[] {LEAST, -1, 0, 9, MOST}) {
-            refused("setLink(1, " + v + ")", EdgeGroup::busy, g -> g.setLink(1, v), BAD);
+            refused("setLink(1, " + v + ")", ClauseGroup::busy, g -> g.setLink(1, v), BAD);
         }
     }
 
     private void delayIs1To30() {
-        edge("THE LINK", "and a delay (1 to 30; 5).");
+        clause("THE LINK", "and a delay (1 to 30; 5).");
         ConnectionFamily f = new ConnectionFamily();
         due("told(4)", f.told(DELAY), 5);
         due("setLink(2, 30)", f.setLink(2, 30), 5);
         due("setLink(2, 1)", f.setLink(2, 1), 30);
         due("told(4)", f.told(DELAY), 1);
         for (int v : new int[] {LEAST, -1, 0, 31, MOST}) {
-            refused("setLink(2, " + v + ")", EdgeGroup::busy, g -> g.setLink(2, v), BAD);
+            refused("setLink(2, " + v + ")", ClauseGroup::busy, g -> g.setLink(2, v), BAD);
         }
     }
 
     private void delayOfThatTime() {
-        edge("THE LINK", "its acknowledgement comes at tick t + delay (with the delay of that time).");
+        clause("THE LINK", "its acknowledgement comes at tick t + delay (with the delay of that time).");
         for (int delay : new int[] {1, 2, 29, 30}) {
             ConnectionFamily f = new ConnectionFamily();
             sendWithDelay(f, 0, delay);

@@ -1,5 +1,5 @@
 /** Promises 13 to 22: the range of each argument, what is told at its edges, and what is refused beyond them. */
-final class TellingEdges extends EdgeGroup {
+final class TellingEdges extends ClauseGroup {
     TellingEdges(Check check, Doc doc) {
         super(check, doc);
     }
@@ -27,7 +27,7 @@ final class TellingEdges extends EdgeGroup {
     }
 
     private void propertyOfAll() {
-        edge("Promise 13", "Returns the property; BAD if c is not open or what is out of range.");
+        clause("Promise 13", "Returns the property; BAD if c is not open or what is out of range.");
         ConnectionFamily f = busy();
         for (int c = 0; c <= 3; c++) {
             for (int what = 1; what <= 16; what++) {
@@ -35,12 +35,12 @@ final class TellingEdges extends EdgeGroup {
             }
         }
         for (int what : new int[] {LEAST, -9, -1, 17, MOST}) {
-            refused("property(0, " + what + ")", EdgeGroup::busy, g -> g.property(0, what), BAD);
-            refused("property(9, " + what + ")", EdgeGroup::busy, g -> g.property(9, what), BAD);
+            refused("property(0, " + what + ")", ClauseGroup::busy, g -> g.property(0, what), BAD);
+            refused("property(9, " + what + ")", ClauseGroup::busy, g -> g.property(9, what), BAD);
         }
         for (int c : NOT_OPEN) {
-            refused("property(" + c + ", 0)", EdgeGroup::busy, g -> g.property(c, 0), BAD);
-            refused("property(" + c + ", 16)", EdgeGroup::busy, g -> g.property(c, 16), BAD);
+            refused("property(" + c + ", 0)", ClauseGroup::busy, g -> g.property(c, 0), BAD);
+            refused("property(" + c + ", 16)", ClauseGroup::busy, g -> g.property(c, 16), BAD);
         }
         ConnectionFamily g = new ConnectionFamily();
         g.give(0, 3);
@@ -50,10 +50,10 @@ final class TellingEdges extends EdgeGroup {
     }
 
     private void propertyWithoutAValue() {
-        edge("Promise 13", "0 its parent (NONE for the head)");
+        clause("Promise 13", "0 its parent (NONE for the head)");
         due("property(0, 0)", busy().property(0, 0), NONE);
         due("property(1, 0)", busy().property(1, 0), 0);
-        edge("Promise 13", "(12 and 13: NONE if there are no estimates)");
+        clause("Promise 13", "(12 and 13: NONE if there are no estimates)");
         ConnectionFamily f = new ConnectionFamily();
         f.open(0, 1);
         for (int c = 0; c <= 1; c++) {
@@ -69,7 +69,7 @@ final class TellingEdges extends EdgeGroup {
     }
 
     private void countOfAll() {
-        edge("Promise 14", "Returns the count; BAD if c is not open or what is out of range.");
+        clause("Promise 14", "Returns the count; BAD if c is not open or what is out of range.");
         ConnectionFamily f = busy();
         for (int c = 0; c <= 3; c++) {
             for (int what = 0; what <= 5; what++) {
@@ -77,16 +77,16 @@ final class TellingEdges extends EdgeGroup {
             }
         }
         for (int what : new int[] {LEAST, -1, 6, MOST}) {
-            refused("count(0, " + what + ")", EdgeGroup::busy, g -> g.count(0, what), BAD);
+            refused("count(0, " + what + ")", ClauseGroup::busy, g -> g.count(0, what), BAD);
         }
         for (int c : NOT_OPEN) {
-            refused("count(" + c + ", 0)", EdgeGroup::busy, g -> g.count(c, 0), BAD);
-            refused("count(" + c + ", 5)", EdgeGroup::busy, g -> g.count(c, 5), BAD);
+            refused("count(" + c + ", 0)", ClauseGroup::busy, g -> g.count(c, 0), BAD);
+            refused("count(" + c + ", 5)", ClauseGroup::busy, g -> g.count(c, 5), BAD);
         }
     }
 
     private void countSinceItWasOpened() {
-        edge("Promise 14", "0 packets sent, 1 packets acknowledged, 2 packets found lost, 3 gap losses, 4 timeout losses");
+        clause("Promise 14", "0 packets sent, 1 packets acknowledged, 2 packets found lost, 3 gap losses, 4 timeout losses");
         ConnectionFamily f = new ConnectionFamily();
         f.open(0, 1);
         f.setLink(0, 1);
@@ -106,25 +106,25 @@ final class TellingEdges extends EdgeGroup {
     }
 
     private void toldOfAll() {
-        edge("Promise 15", "Returns the number; BAD if what is out of range.");
+        clause("Promise 15", "Returns the number; BAD if what is out of range.");
         ConnectionFamily f = busy();
         for (int what = 0; what <= 12; what++) {
             due("told(" + what + ") is told", f.told(what) >= 0 ? 1 : 0, 1);
         }
         for (int what : new int[] {LEAST, -9, -1, 13, MOST}) {
-            refused("told(" + what + ")", EdgeGroup::busy, g -> g.told(what), BAD);
+            refused("told(" + what + ")", ClauseGroup::busy, g -> g.told(what), BAD);
         }
         due("told(0)", f.told(0), 27);
         due("told(12)", f.told(12), 2);
     }
 
     private void childInItsPlace() {
-        edge("Promise 16", "the place of the child in the ascending order of their numbers, from 0");
+        clause("Promise 16", "the place of the child in the ascending order of their numbers, from 0");
         ConnectionFamily f = ofTen();
         for (int i = 0; i <= 8; i++) {
             due("child(0, " + i + ")", f.child(0, i), i + 1);
         }
-        edge("Promise 16", "NONE if there are not so many;");
+        clause("Promise 16", "NONE if there are not so many;");
         due("child(0, 9)", f.child(0, 9), NONE);
         due("child(0, most)", f.child(0, MOST), NONE);
         due("child(9, 0)", f.child(9, 0), NONE);
@@ -134,17 +134,17 @@ final class TellingEdges extends EdgeGroup {
         due("child(9, 0) of a smaller number", f.child(9, 0), 1);
         due("child(0, 0)", f.child(0, 0), 2);
         due("child(0, 8)", f.child(0, 8), NONE);
-        edge("Promise 16", "BAD if c is not open or i is negative.");
+        clause("Promise 16", "BAD if c is not open or i is negative.");
         for (int i : new int[] {LEAST, -9, -1}) {
-            refused("child(0, " + i + ")", EdgeGroup::busy, g -> g.child(0, i), BAD);
+            refused("child(0, " + i + ")", ClauseGroup::busy, g -> g.child(0, i), BAD);
         }
         for (int c : NOT_OPEN) {
-            refused("child(" + c + ", 0)", EdgeGroup::busy, g -> g.child(c, 0), BAD);
+            refused("child(" + c + ", 0)", ClauseGroup::busy, g -> g.child(c, 0), BAD);
         }
     }
 
     private void kinAsABitMask() {
-        edge("Promise 17", "Returns the set of its kin, as a bit mask (bit k for connection k); BAD if c is not open.");
+        clause("Promise 17", "Returns the set of its kin, as a bit mask (bit k for connection k); BAD if c is not open.");
         ConnectionFamily f = new ConnectionFamily();
         Texts.load(f, "1(1111(1)111(1))");
         // 0 has 1, 2, 3, 4, 6, 7 and 8; 4 has 5, 8 has 9
@@ -157,12 +157,12 @@ final class TellingEdges extends EdgeGroup {
         f.close(8);
         due("kin(9) of the head now", f.kin(9), 1 + 2 + 4 + 8 + 16 + 64 + 128);
         for (int c : NOT_OPEN) {
-            refused("kin(" + c + ")", EdgeGroup::busy, g -> g.kin(c), BAD);
+            refused("kin(" + c + ")", ClauseGroup::busy, g -> g.kin(c), BAD);
         }
     }
 
     private void distanceAtItsEnds() {
-        edge("Promise 18", "BAD if one of them is not open.");
+        clause("Promise 18", "BAD if one of them is not open.");
         ConnectionFamily f = new ConnectionFamily();
         for (int c = 0; c < 9; c++) {
             f.open(c, 1);
@@ -177,14 +177,14 @@ final class TellingEdges extends EdgeGroup {
         due("distance between the ends of two chains", g.distance(4, 8), 8);
         due("distance between the ends of two chains", g.distance(8, 4), 8);
         for (int c : NOT_OPEN) {
-            refused("distance(" + c + ", 0)", EdgeGroup::busy, h -> h.distance(c, 0), BAD);
-            refused("distance(0, " + c + ")", EdgeGroup::busy, h -> h.distance(0, c), BAD);
-            refused("distance(" + c + ", " + c + ")", EdgeGroup::busy, h -> h.distance(c, c), BAD);
+            refused("distance(" + c + ", 0)", ClauseGroup::busy, h -> h.distance(c, 0), BAD);
+            refused("distance(0, " + c + ")", ClauseGroup::busy, h -> h.distance(0, c), BAD);
+            refused("distance(" + c + ", " + c + ")", ClauseGroup::busy, h -> h.distance(c, c), BAD);
         }
     }
 
     private void inFlightInItsPlace() {
-        edge("Promise 19", "its place in the flight, from 0");
+        clause("Promise 19", "its place in the flight, from 0");
         ConnectionFamily f = onFastLink();
         deliver(f, 0, 542);
         int tick = f.told(CLOCK);
@@ -194,26 +194,26 @@ final class TellingEdges extends EdgeGroup {
             due("inFlight(0, " + i + ", 0)", f.inFlight(0, i, 0), 542 + i);
             due("inFlight(0, " + i + ", 1)", f.inFlight(0, i, 1), tick);
         }
-        edge("Promise 19", "NONE if the flight has not so many packets;");
+        clause("Promise 19", "NONE if the flight has not so many packets;");
         due("inFlight(0, 64, 0)", f.inFlight(0, 64, 0), NONE);
         due("inFlight(0, 64, 1)", f.inFlight(0, 64, 1), NONE);
         due("inFlight(0, most, 0)", f.inFlight(0, MOST, 0), NONE);
         due("inFlight(0, 0, 0) of nothing", fresh().inFlight(0, 0, 0), NONE);
-        edge("Promise 19", "BAD if c is not open, i is negative or what is out of range.");
+        clause("Promise 19", "BAD if c is not open, i is negative or what is out of range.");
         for (int i : new int[] {LEAST, -9, -1}) {
-            refused("inFlight(0, " + i + ", 0)", EdgeGroup::busy, g -> g.inFlight(0, i, 0), BAD);
+            refused("inFlight(0, " + i + ", 0)", ClauseGroup::busy, g -> g.inFlight(0, i, 0), BAD);
         }
         for (int what : new int[] {LEAST, -1, 2, MOST}) {
-            refused("inFlight(0, 0, " + what + ")", EdgeGroup::busy, g -> g.inFlight(0, 0, what), BAD);
-            refused("inFlight(0, 99, " + what + ")", EdgeGroup::busy, g -> g.inFlight(0, 99, what), BAD);
+            refused("inFlight(0, 0, " + what + ")", ClauseGroup::busy, g -> g.inFlight(0, 0, what), BAD);
+            refused("inFlight(0, 99, " + what + ")", ClauseGroup::busy, g -> g.inFlight(0, 99, what), BAD);
         }
         for (int c : NOT_OPEN) {
-            refused("inFlight(" + c + ", 0, 0)", EdgeGroup::busy, g -> g.inFlight(c, 0, 0), BAD);
+            refused("inFlight(" + c + ", 0, 0)", ClauseGroup::busy, g -> g.inFlight(c, 0, 0), BAD);
         }
     }
 
     private void queuedInItsPlace() {
-        edge("Promise 20", "its place in the queue, from 0");
+        clause("Promise 20", "its place in the queue, from 0");
         ConnectionFamily f = onFastLink();
         deliver(f, 0, 542);
         f.setLink(1, 1);
@@ -222,20 +222,20 @@ final class TellingEdges extends EdgeGroup {
         due("told(7)", f.told(QUEUE), 59);
         due("queued(0)", f.queued(0), 0);
         due("queued(58)", f.queued(58), 0);
-        edge("Promise 20", "NONE if there are not so many packets;");
+        clause("Promise 20", "NONE if there are not so many packets;");
         due("queued(59)", f.queued(59), NONE);
         due("queued(60)", f.queued(60), NONE);
         due("queued(most)", f.queued(MOST), NONE);
         due("queued(0) of nothing", fresh().queued(0), NONE);
-        edge("Promise 20", "BAD if i is negative.");
+        clause("Promise 20", "BAD if i is negative.");
         for (int i : new int[] {LEAST, -9, -1}) {
-            refused("queued(" + i + ")", EdgeGroup::busy, g -> g.queued(i), BAD);
+            refused("queued(" + i + ")", ClauseGroup::busy, g -> g.queued(i), BAD);
         }
     }
 
     /** The packet of 1 waits behind 13 of the head, on a link that serves one in a tick, until it is found lost. */
     private void queuedOfAClosedOne() {
-        edge("Promise 20", "Returns the connection that sent it (also if it is open no more, or again);");
+        clause("Promise 20", "Returns the connection that sent it (also if it is open no more, or again);");
         ConnectionFamily f = onFastLink();
         f.setLink(2, 9);
         f.open(0, 1);
@@ -268,7 +268,7 @@ final class TellingEdges extends EdgeGroup {
     }
 
     private void dueIsAtLeastTheClock() {
-        edge("Promise 21", "Returns the tick, at least that of the clock;");
+        clause("Promise 21", "Returns the tick, at least that of the clock;");
         for (int wait = 0; wait <= 4; wait++) {
             ConnectionFamily f = new ConnectionFamily();
             sendWithDelay(f, 0, 30);
@@ -286,7 +286,7 @@ final class TellingEdges extends EdgeGroup {
             f.run(1);
             due("timeouts", f.count(0, TIMEOUTS), 1);
         }
-        edge("Promise 21", "by its present timeout, if nothing was acknowledged or sent.");
+        clause("Promise 21", "by its present timeout, if nothing was acknowledged or sent.");
         ConnectionFamily g = new ConnectionFamily();
         sendWithDelay(g, 0, 30);
         for (int tick = 1; tick <= 10; tick++) {
@@ -297,7 +297,7 @@ final class TellingEdges extends EdgeGroup {
     }
 
     private void dueWithoutAFlight() {
-        edge("Promise 21", "NONE if its flight is empty;");
+        clause("Promise 21", "NONE if its flight is empty;");
         ConnectionFamily f = new ConnectionFamily();
         due("due(0) at first", f.due(0), NONE);
         f.give(0, 1);
@@ -306,14 +306,14 @@ final class TellingEdges extends EdgeGroup {
         due("due(0) with a flight", f.due(0), 10);
         f.run(5);
         due("due(0) after its acknowledgement", f.due(0), NONE);
-        edge("Promise 21", "BAD if c is not open.");
+        clause("Promise 21", "BAD if c is not open.");
         for (int c : NOT_OPEN) {
-            refused("due(" + c + ")", EdgeGroup::busy, g -> g.due(c), BAD);
+            refused("due(" + c + ")", ClauseGroup::busy, g -> g.due(c), BAD);
         }
     }
 
     private void fairnessOfLimits() {
-        edge("Promise 22", "Each connection whose limit is at least 1 has a number x");
+        clause("Promise 22", "Each connection whose limit is at least 1 has a number x");
         ConnectionFamily f = new ConnectionFamily();
         f.open(0, 1);
         trips(f, 0, 1);
@@ -336,7 +336,7 @@ final class TellingEdges extends EdgeGroup {
     }
 
     private void fairnessOfNothing() {
-        edge("Promise 22", "NONE if there is no such connection, or all x are 0.");
+        clause("Promise 22", "NONE if there is no such connection, or all x are 0.");
         due("fairness() at first", fresh().fairness(), NONE);
         due("fairness() of ten", ofTen().fairness(), NONE);
         ConnectionFamily f = new ConnectionFamily();
@@ -353,7 +353,7 @@ final class TellingEdges extends EdgeGroup {
     }
 
     private void fairnessIsRoundedOnce() {
-        edge("Promise 22", "Returns 1000 * s * s / (n * q), rounded down once, at the end;");
+        clause("Promise 22", "Returns 1000 * s * s / (n * q), rounded down once, at the end;");
         ConnectionFamily f = new ConnectionFamily();
         f.open(0, 1);
         f.setBudget(120);
@@ -367,7 +367,7 @@ final class TellingEdges extends EdgeGroup {
         trips(f, 1, 1);
         // 2 and 3: 1000 * 25 / (2 * 13) is 961.5
         due("fairness() of 2 and 3", f.fairness(), 961);
-        edge("Promise 22", "divided by its limit and rounded down.");
+        clause("Promise 22", "divided by its limit and rounded down.");
         f.setBudget(200);
         // 120 / 100 and 180 / 100
         due("fairness() of 1 and 1", f.fairness(), 1000);

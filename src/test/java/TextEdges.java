@@ -1,5 +1,5 @@
 /** TEXTS: what is a family, and the kinds and positions of faults. */
-final class TextEdges extends EdgeGroup {
+final class TextEdges extends ClauseGroup {
     TextEdges(Check check, Doc doc) {
         super(check, doc);
     }
@@ -45,7 +45,7 @@ final class TextEdges extends EdgeGroup {
     }
 
     private void atMost60Bytes() {
-        edge("TEXTS", "The text buffer has at most 60 bytes.");
+        clause("TEXTS", "The text buffer has at most 60 bytes.");
         read("7" + blanks(59), 1);
         read(blanks(59) + "7", 1);
         read("1(" + blanks(56) + "2)", 2);
@@ -57,7 +57,7 @@ final class TextEdges extends EdgeGroup {
     }
 
     private void weightsAreDigits1To9() {
-        edge("TEXTS", "where a weight is a digit 1 to 9");
+        clause("TEXTS", "where a weight is a digit 1 to 9");
         for (int weight = 1; weight <= 9; weight++) {
             ConnectionFamily f = new ConnectionFamily();
             due("load()", Texts.load(f, weight + "(" + weight + ")"), 2);
@@ -71,7 +71,7 @@ final class TextEdges extends EdgeGroup {
     }
 
     private void blanksAnywhere() {
-        edge("TEXTS", "and blanks can stand anywhere.");
+        clause("TEXTS", "and blanks can stand anywhere.");
         read(" 1 ( 2 ( 3 ) 4 ) ", 4);
         read("1  (23)", 3);
         read("1(2  3)", 3);
@@ -82,7 +82,7 @@ final class TextEdges extends EdgeGroup {
     }
 
     private void aHeadAlone() {
-        edge("TEXTS", "A text that is no family has a fault, with a kind and a position;");
+        clause("TEXTS", "A text that is no family has a fault, with a kind and a position;");
         read("1", 1);
         read("1(1)", 2);
         faulty("", 0, 1);
@@ -91,7 +91,7 @@ final class TextEdges extends EdgeGroup {
     }
 
     private void bytesThatCannotStandThere() {
-        edge("TEXTS", "1 a byte that cannot stand there");
+        clause("TEXTS", "1 a byte that cannot stand there");
         for (int b = 33; b <= 126; b++) {
             char sign = (char) b;
             boolean isDigit = b >= '0' && b <= '9';
@@ -113,7 +113,7 @@ final class TextEdges extends EdgeGroup {
     }
 
     private void endsTooEarly() {
-        edge("TEXTS", "or the text ends too early (its length is the position);");
+        clause("TEXTS", "or the text ends too early (its length is the position);");
         faulty("", 0, 1);
         faulty(" ", 1, 1);
         faulty("1(", 2, 1);
@@ -127,7 +127,7 @@ final class TextEdges extends EdgeGroup {
     }
 
     private void digit0() {
-        edge("TEXTS", "2 the digit 0 where a weight is due;");
+        clause("TEXTS", "2 the digit 0 where a weight is due;");
         faulty("0", 0, 2);
         faulty("  0", 2, 2);
         faulty("0(1)", 0, 2);
@@ -144,7 +144,7 @@ final class TextEdges extends EdgeGroup {
     }
 
     private void eleventhConnection() {
-        edge("TEXTS", "3 an 11th connection, where it could stand otherwise (its weight, also a 0);");
+        clause("TEXTS", "3 an 11th connection, where it could stand otherwise (its weight, also a 0);");
         read("1(123456789)", 10);
         read("1(1(2(3(456789))))", 10);
         faulty("1(1234567891)", 11, 3);
@@ -158,7 +158,7 @@ final class TextEdges extends EdgeGroup {
     }
 
     private void eleventhWhereNoneCouldStand() {
-        edge("TEXTS", "3 an 11th connection, where it could stand otherwise");
+        clause("TEXTS", "3 an 11th connection, where it could stand otherwise");
         faulty("1(123456789)1", 12, 1);
         faulty("1(123456789)0", 12, 1);
         faulty("1(123456789)(1)", 12, 1);
@@ -166,7 +166,7 @@ final class TextEdges extends EdgeGroup {
     }
 
     private void fifthParenthesis() {
-        edge("TEXTS", "4 an opening parenthesis within four open ones, where it could stand otherwise.");
+        clause("TEXTS", "4 an opening parenthesis within four open ones, where it could stand otherwise.");
         read("1(1(1(1(1))))", 5);
         read("1(1(1(1(1)1(1))1(1(1))))", 10);
         faulty("1(1(1(1(1(1)))))", 9, 4);
@@ -177,7 +177,7 @@ final class TextEdges extends EdgeGroup {
     }
 
     private void fifthWhereNoneCouldStand() {
-        edge("TEXTS", "4 an opening parenthesis within four open ones");
+        clause("TEXTS", "4 an opening parenthesis within four open ones");
         faulty("1(1(1(1((1)))))", 8, 1);
         faulty("1(1(1(1(1)(1))))", 10, 1);
         faulty("1(1(1(1(1)", 10, 1);
@@ -185,7 +185,7 @@ final class TextEdges extends EdgeGroup {
 
     /** What an earlier text has left behind does not matter. */
     private void behindOtherTexts() {
-        edge("TEXTS", "A text that is no family has a fault");
+        clause("TEXTS", "A text that is no family has a fault");
         String[] texts = {"1", "1(", "1(2", "1(2)", "1(1(1(1(1(", "1(1234567891)", "0", ""};
         int[] answers = {1, -12, -13, 2, -19, -21, -10, -10};
         int[] kinds = {NONE, 1, 1, NONE, 4, 3, 2, 1};
@@ -205,7 +205,7 @@ final class TextEdges extends EdgeGroup {
     }
 
     private void fromLeftToRight() {
-        edge("TEXTS", "it is read from left to right:");
+        clause("TEXTS", "it is read from left to right:");
         faulty("0x", 0, 2);
         faulty("x0", 0, 1);
         faulty("1(0(1(1(1(1", 2, 2);

@@ -1,5 +1,5 @@
 /** TICKS: acknowledgements, estimates, the growth of credits, sending and serving. */
-final class TickEdges extends EdgeGroup {
+final class TickEdges extends ClauseGroup {
     TickEdges(Check check, Doc doc) {
         super(check, doc);
     }
@@ -32,20 +32,20 @@ final class TickEdges extends EdgeGroup {
     }
 
     private void clockAtFirst() {
-        edge("TICKS", "The clock is at tick 0 at first.");
+        clause("TICKS", "The clock is at tick 0 at first.");
         ConnectionFamily f = new ConnectionFamily();
         due("told(0)", f.told(CLOCK), 0);
         f.give(0, 1);
         f.run(1);
         due("the first tick is 0", f.inFlight(0, 0, 1), 0);
-        edge("TICKS", "Then the clock becomes t + 1.");
+        clause("TICKS", "Then the clock becomes t + 1.");
         due("told(0) after a tick", f.told(CLOCK), 1);
         f.run(60);
         due("told(0) after 60 more", f.told(CLOCK), 61);
     }
 
     private void orderOfService() {
-        edge("TICKS", "The acknowledgements that are due at t come, in the order in which their packets were served.");
+        clause("TICKS", "The acknowledgements that are due at t come, in the order in which their packets were served.");
         ConnectionFamily f = new ConnectionFamily();
         sendWithDelay(f, 0, 4);
         sendWithDelay(f, 0, 3);
@@ -60,7 +60,7 @@ final class TickEdges extends EdgeGroup {
     }
 
     private void lateIfNotInFlight() {
-        edge("TICKS", "If the packet is not in the flight of its connection any more");
+        clause("TICKS", "If the packet is not in the flight of its connection any more");
         ConnectionFamily f = new ConnectionFamily();
         sendWithDelay(f, 0, 12);
         f.run(11);
@@ -81,7 +81,7 @@ final class TickEdges extends EdgeGroup {
     }
 
     private void lateIfClosed() {
-        edge("TICKS", "(or this connection has been closed since), the acknowledgement is late, and nothing else happens.");
+        clause("TICKS", "(or this connection has been closed since), the acknowledgement is late, and nothing else happens.");
         for (int reopened = 0; reopened <= 1; reopened++) {
             ConnectionFamily f = new ConnectionFamily();
             f.open(0, 1);
@@ -118,7 +118,7 @@ final class TickEdges extends EdgeGroup {
     }
 
     private void nothingBeforeIt() {
-        edge("TICKS", "if there are packets before it in the flight, they are found lost");
+        clause("TICKS", "if there are packets before it in the flight, they are found lost");
         ConnectionFamily f = beforeAGap();
         due("the first one had none before it", f.count(0, ACKNOWLEDGED), 1);
         due("lost", f.count(0, LOST), 0);
@@ -133,7 +133,7 @@ final class TickEdges extends EdgeGroup {
     }
 
     private void backlogOfFoundLostIs9999AtMost() {
-        edge("TICKS", "and are added to the backlog, which is 9999 at most);");
+        clause("TICKS", "and are added to the backlog, which is 9999 at most);");
         for (int backlog = 9997; backlog <= 9999; backlog++) {
             ConnectionFamily f = beforeAGap();
             fillBacklog(f, 0, backlog);
@@ -160,7 +160,7 @@ final class TickEdges extends EdgeGroup {
     }
 
     private void firstSampleAndLaterOnes() {
-        edge("TICKS", "If the number of samples is 0, S becomes 8 * r and V becomes 2 * r;");
+        clause("TICKS", "If the number of samples is 0, S becomes 8 * r and V becomes 2 * r;");
         for (int r : new int[] {1, 9}) {
             ConnectionFamily f = new ConnectionFamily();
             f.setLink(2, r);
@@ -168,7 +168,7 @@ final class TickEdges extends EdgeGroup {
             due("S by " + r, f.property(0, S), 8 * r);
             due("V by " + r, f.property(0, V), 2 * r);
         }
-        edge("TICKS", "otherwise let d be r - S / 8: S becomes S + d, and V becomes V + (the absolute value of d) - V / 4.");
+        clause("TICKS", "otherwise let d be r - S / 8: S becomes S + d, and V becomes V + (the absolute value of d) - V / 4.");
         ConnectionFamily f = new ConnectionFamily();
         trips(f, 0, 1);
         int[][] delaySV = {{5, 40, 8}, {1, 36, 10}, {1, 33, 11}, {10, 39, 15}, {4, 39, 12}, {4, 39, 9}, {4, 39, 7},
@@ -182,7 +182,7 @@ final class TickEdges extends EdgeGroup {
     }
 
     private void samplesAre16AtMost() {
-        edge("TICKS", "The number of samples becomes one more (16 at most), and the backoff 0.");
+        clause("TICKS", "The number of samples becomes one more (16 at most), and the backoff 0.");
         ConnectionFamily f = onFastLink();
         trips(f, 0, 15);
         due("samples", f.property(0, SAMPLES), 15);
@@ -194,7 +194,7 @@ final class TickEdges extends EdgeGroup {
     }
 
     private void creditGrowsBelowTheThreshold() {
-        edge("TICKS", "by 16, if credit / 16 is less than the threshold");
+        clause("TICKS", "by 16, if credit / 16 is less than the threshold");
         ConnectionFamily f = onFastLink();
         deliver(f, 0, 29);
         due("credit", f.property(0, CREDIT), 496);
@@ -232,7 +232,7 @@ final class TickEdges extends EdgeGroup {
     }
 
     private void creditGrowsByAtLeast1() {
-        edge("TICKS", "otherwise by 256 / credit, but at least by 1;");
+        clause("TICKS", "otherwise by 256 / credit, but at least by 1;");
         int[][] before = {{64, 32, 40, 46}, {128, 64, 68, 71}, {256, 128, 130, 131}, {512, 256, 257, 258}};
         for (int[] one : before) {
             ConnectionFamily f = afterAGapAt(one[0]);
@@ -247,7 +247,7 @@ final class TickEdges extends EdgeGroup {
     }
 
     private void creditGrowsTo1024AtMost() {
-        edge("TICKS", "but to 1024 at most.");
+        clause("TICKS", "but to 1024 at most.");
         ConnectionFamily f = onFastLink();
         deliver(f, 0, 541);
         int[] credits = {1023, 1024, 1024, 1024};
@@ -266,7 +266,7 @@ final class TickEdges extends EdgeGroup {
     }
 
     private void noGrowthAfterALoss() {
-        edge("TICKS", "If no packet was found lost, the credit grows:");
+        clause("TICKS", "If no packet was found lost, the credit grows:");
         ConnectionFamily f = beforeAGap();
         due("credit", f.property(0, CREDIT), 48);
         f.run(1);
@@ -274,7 +274,7 @@ final class TickEdges extends EdgeGroup {
     }
 
     private void sendingBeginsWithTheTick() {
-        edge("TICKS", "beginning with the number t % 10 and going round");
+        clause("TICKS", "beginning with the number t % 10 and going round");
         for (int tick = 0; tick <= 20; tick++) {
             ConnectionFamily f = ofTen();
             runUntil(f, tick);
@@ -291,7 +291,7 @@ final class TickEdges extends EdgeGroup {
     }
 
     private void sendingGoesRound() {
-        edge("TICKS", "each open connection that may send sends one packet;");
+        clause("TICKS", "each open connection that may send sends one packet;");
         for (int tick = 0; tick <= 10; tick++) {
             ConnectionFamily f = new ConnectionFamily();
             for (int c = 1; c <= 7; c++) {
@@ -314,7 +314,7 @@ final class TickEdges extends EdgeGroup {
     }
 
     private void sendingIsRepeated() {
-        edge("TICKS", "this is repeated until none does.");
+        clause("TICKS", "this is repeated until none does.");
         ConnectionFamily f = onFastLink();
         trips(f, 0, 4);
         f.setWeight(0, 2);
@@ -334,7 +334,7 @@ final class TickEdges extends EdgeGroup {
     }
 
     private void sendingNeedsABacklog() {
-        edge("TICKS", "A connection may send if it has a backlog");
+        clause("TICKS", "A connection may send if it has a backlog");
         ConnectionFamily f = new ConnectionFamily();
         f.run(1);
         due("sent without a backlog", f.count(0, SENT), 0);
@@ -347,7 +347,7 @@ final class TickEdges extends EdgeGroup {
     }
 
     private void sendingNeedsAWindow() {
-        edge("TICKS", "its flight is smaller than its window");
+        clause("TICKS", "its flight is smaller than its window");
         ConnectionFamily f = new ConnectionFamily();
         f.setLink(2, 9);
         f.give(0, 1);
@@ -366,7 +366,7 @@ final class TickEdges extends EdgeGroup {
     }
 
     private void sendingNeedsABudget() {
-        edge("TICKS", "and all flights together are smaller than the budget.");
+        clause("TICKS", "and all flights together are smaller than the budget.");
         for (int budget = 2; budget <= 4; budget++) {
             ConnectionFamily f = new ConnectionFamily();
             trips(f, 0, 6);
@@ -385,7 +385,7 @@ final class TickEdges extends EdgeGroup {
     }
 
     private void aFullQueueDrops() {
-        edge("TICKS", "if the queue of the link has at least as many packets as its capacity, it is dropped");
+        clause("TICKS", "if the queue of the link has at least as many packets as its capacity, it is dropped");
         int[] droppedOfTen = {0, 9, 8, 7, 6, 5, 4, 3, 2, 1, 0, 0};
         for (int capacity = 1; capacity <= 11; capacity++) {
             ConnectionFamily f = ofTen();
@@ -412,7 +412,7 @@ final class TickEdges extends EdgeGroup {
     }
 
     private void anOverfullQueueDrops() {
-        edge("TICKS", "at least as many packets as its capacity, it is dropped, otherwise it joins the queue.");
+        clause("TICKS", "at least as many packets as its capacity, it is dropped, otherwise it joins the queue.");
         for (int capacity = 7; capacity <= 10; capacity++) {
             ConnectionFamily f = ofTen();
             f.setLink(1, 1);
@@ -430,7 +430,7 @@ final class TickEdges extends EdgeGroup {
     }
 
     private void servesAsFarAsThereAreAny() {
-        edge("TICKS", "The link serves as many packets as its rate says, as far as there are any.");
+        clause("TICKS", "The link serves as many packets as its rate says, as far as there are any.");
         for (int rate = 1; rate <= 8; rate++) {
             for (int packets = 0; packets <= 10; packets++) {
                 ConnectionFamily f = ofTen();
@@ -471,7 +471,7 @@ final class TickEdges extends EdgeGroup {
 
     /** A rate of 8 and a delay of 30: the queue is never empty, and so 240 are on their way after 30 ticks. */
     private void asManyOnTheirWayAsCanBe() {
-        edge("TICKS", "The link serves as many packets as its rate says");
+        clause("TICKS", "The link serves as many packets as its rate says");
         ConnectionFamily f = ofFiveGreatWindows();
         f.setLink(2, 30);
         int servedBefore = sum(f, ACKNOWLEDGED);
@@ -497,7 +497,7 @@ final class TickEdges extends EdgeGroup {
     }
 
     private void penaltiesBecomeLess() {
-        edge("TICKS", "If t is a multiple of 8, each penalty above 0 becomes 1 less.");
+        clause("TICKS", "If t is a multiple of 8, each penalty above 0 becomes 1 less.");
         ConnectionFamily f = new ConnectionFamily();
         sendWithDelay(f, 0, 12);
         f.run(10);

@@ -1,7 +1,7 @@
 import java.math.BigInteger;
 
 /** Promises 23 to 27: what would be, undo() and digest(), at the edges of their arguments. */
-final class TrialEdges extends EdgeGroup {
+final class TrialEdges extends ClauseGroup {
     TrialEdges(Check check, Doc doc) {
         super(check, doc);
     }
@@ -23,25 +23,25 @@ final class TrialEdges extends EdgeGroup {
     }
 
     private void ifBudgetOfBudgets() {
-        edge("Promise 23", "the budget, 1 to 200");
+        clause("Promise 23", "the budget, 1 to 200");
         ConnectionFamily f = new ConnectionFamily();
         f.give(0, 2);
         due("ifBudget(1, 6)", f.ifBudget(1, 6), 1);
         due("ifBudget(2, 6)", f.ifBudget(2, 6), 2);
         due("ifBudget(200, 6)", f.ifBudget(200, 6), 2);
-        edge("Promise 23", "Returns how many; BAD if an argument is out of range.");
+        clause("Promise 23", "Returns how many; BAD if an argument is out of range.");
         for (int budget : new int[] {LEAST, -1, 0, 201, MOST}) {
-            refused("ifBudget(" + budget + ", 1)", EdgeGroup::busy, g -> g.ifBudget(budget, 1), BAD);
+            refused("ifBudget(" + budget + ", 1)", ClauseGroup::busy, g -> g.ifBudget(budget, 1), BAD);
         }
-        edge("Promise 23", "Nothing changes.");
+        clause("Promise 23", "Nothing changes.");
         for (int budget : new int[] {1, 40, 200}) {
-            changesNothing("ifBudget(" + budget + ", 60)", EdgeGroup::busy, g -> g.ifBudget(budget, 60));
+            changesNothing("ifBudget(" + budget + ", 60)", ClauseGroup::busy, g -> g.ifBudget(budget, 60));
         }
         due("ifBudget(40, 60), the budget being 40", busy().ifBudget(40, 60), busy().run(60));
     }
 
     private void ifBudgetOfTicks() {
-        edge("Promise 23", "the number of ticks, 1 to 60");
+        clause("Promise 23", "the number of ticks, 1 to 60");
         ConnectionFamily f = new ConnectionFamily();
         f.give(0, 1);
         f.run(5);
@@ -54,12 +54,12 @@ final class TrialEdges extends EdgeGroup {
         g.run(1);
         due("ifBudget(40, 60) a tick later", g.ifBudget(40, 60), 1);
         for (int ticks : new int[] {LEAST, -1, 0, 61, MOST}) {
-            refused("ifBudget(40, " + ticks + ")", EdgeGroup::busy, h -> h.ifBudget(40, ticks), BAD);
+            refused("ifBudget(40, " + ticks + ")", ClauseGroup::busy, h -> h.ifBudget(40, ticks), BAD);
         }
     }
 
     private void ifBudgetBelowTheFlights() {
-        edge("Promise 23", "with another budget (which may be smaller than all flights together).");
+        clause("Promise 23", "with another budget (which may be smaller than all flights together).");
         ConnectionFamily f = new ConnectionFamily();
         f.give(0, 4);
         f.run(1);
@@ -72,16 +72,16 @@ final class TrialEdges extends EdgeGroup {
     }
 
     private void bestBudgetOfTicks() {
-        edge("Promise 24", "the number of ticks, 1 to 15");
+        clause("Promise 24", "the number of ticks, 1 to 15");
         due("bestBudget(1)", fresh().bestBudget(1), 20);
         due("bestBudget(15)", fresh().bestBudget(15), 20);
-        edge("Promise 24", "Returns the budget; BAD if ticks is out of range.");
+        clause("Promise 24", "Returns the budget; BAD if ticks is out of range.");
         for (int ticks : new int[] {LEAST, -1, 0, 16, 60, MOST}) {
-            refused("bestBudget(" + ticks + ")", EdgeGroup::busy, f -> f.bestBudget(ticks), BAD);
+            refused("bestBudget(" + ticks + ")", ClauseGroup::busy, f -> f.bestBudget(ticks), BAD);
         }
-        edge("Promise 24", "Nothing changes.");
-        changesNothing("bestBudget(1)", EdgeGroup::busy, f -> f.bestBudget(1));
-        changesNothing("bestBudget(15)", EdgeGroup::busy, f -> f.bestBudget(15));
+        clause("Promise 24", "Nothing changes.");
+        changesNothing("bestBudget(1)", ClauseGroup::busy, f -> f.bestBudget(1));
+        changesNothing("bestBudget(15)", ClauseGroup::busy, f -> f.bestBudget(15));
     }
 
     /** Connection 1 has a credit for this many packets, and gets a tenth of the budget. */
@@ -97,7 +97,7 @@ final class TrialEdges extends EdgeGroup {
     }
 
     private void bestBudgetIsTheSmallest() {
-        edge("Promise 24", "Finds the smallest budget with which most packets would be acknowledged in some ticks, of the budgets 20, 40, 60, 80 and 100.");
+        clause("Promise 24", "Finds the smallest budget with which most packets would be acknowledged in some ticks, of the budgets 20, 40, 60, 80 and 100.");
         for (int budget = 20; budget <= 100; budget += 20) {
             ConnectionFamily f = ofWindow(budget / 10);
             due("bestBudget(7) where " + budget + " fills the window", f.bestBudget(7), budget);
@@ -109,24 +109,24 @@ final class TrialEdges extends EdgeGroup {
     }
 
     private void ifOpenedOfWeights() {
-        edge("Promise 25", "the weight of the other one, 1 to 9");
+        clause("Promise 25", "the weight of the other one, 1 to 9");
         due("ifOpened(0, 1, NONE)", fresh().ifOpened(0, 1, NONE), 20);
         due("ifOpened(0, 9, NONE)", fresh().ifOpened(0, 9, NONE), 36);
         due("ifOpened(0, 9, 0)", fresh().ifOpened(0, 9, 0), 4);
-        edge("Promise 25", "BAD if parent is not open, weight is out of range, or c is neither open nor NONE;");
+        clause("Promise 25", "BAD if parent is not open, weight is out of range, or c is neither open nor NONE;");
         for (int weight : new int[] {LEAST, -1, 0, 10, MOST}) {
-            refused("ifOpened(0, " + weight + ", 0)", EdgeGroup::busy, f -> f.ifOpened(0, weight, 0), BAD);
+            refused("ifOpened(0, " + weight + ", 0)", ClauseGroup::busy, f -> f.ifOpened(0, weight, 0), BAD);
         }
         for (int parent : new int[] {LEAST, -9, -1, 4, 9, 10, MOST}) {
-            refused("ifOpened(" + parent + ", 1, 0)", EdgeGroup::busy, f -> f.ifOpened(parent, 1, 0), BAD);
+            refused("ifOpened(" + parent + ", 1, 0)", ClauseGroup::busy, f -> f.ifOpened(parent, 1, 0), BAD);
         }
         for (int c : new int[] {LEAST, -10, -8, -1, 4, 9, 10, MOST}) {
-            refused("ifOpened(0, 1, " + c + ")", EdgeGroup::busy, f -> f.ifOpened(0, 1, c), BAD);
+            refused("ifOpened(0, 1, " + c + ")", ClauseGroup::busy, f -> f.ifOpened(0, 1, c), BAD);
         }
     }
 
     private void ifOpenedOfTheOtherOne() {
-        edge("Promise 25", "the connection whose limit is asked for, or NONE for the other one");
+        clause("Promise 25", "the connection whose limit is asked for, or NONE for the other one");
         ConnectionFamily f = ofTen();
         f.close(4);
         f.close(9);
@@ -144,31 +144,31 @@ final class TrialEdges extends EdgeGroup {
             }
         }
         due("ifOpened(0, 3, 4), its number to be", f.ifOpened(0, 3, 4), BAD);
-        edge("Promise 25", "Nothing changes.");
-        changesNothing("ifOpened(0, 9, NONE)", EdgeGroup::busy, g -> g.ifOpened(0, 9, NONE));
-        changesNothing("ifOpened(3, 9, 0)", EdgeGroup::busy, g -> g.ifOpened(3, 9, 0));
+        clause("Promise 25", "Nothing changes.");
+        changesNothing("ifOpened(0, 9, NONE)", ClauseGroup::busy, g -> g.ifOpened(0, 9, NONE));
+        changesNothing("ifOpened(3, 9, 0)", ClauseGroup::busy, g -> g.ifOpened(3, 9, 0));
     }
 
     private void ifOpenedWhenFull() {
-        edge("Promise 25", "FULL if all 10 connections are open.");
+        clause("Promise 25", "FULL if all 10 connections are open.");
         ConnectionFamily f = ofTen();
         due("ifOpened(0, 1, NONE) of an 11th", f.ifOpened(0, 1, NONE), FULL);
         f.close(9);
         due("ifOpened(0, 1, NONE) of a 10th", f.ifOpened(0, 1, NONE), 4);
-        refused("ifOpened(0, 1, NONE)", EdgeGroup::full, g -> g.ifOpened(0, 1, NONE), FULL);
-        refused("ifOpened(9, 9, 9)", EdgeGroup::full, g -> g.ifOpened(9, 9, 9), FULL);
+        refused("ifOpened(0, 1, NONE)", ClauseGroup::full, g -> g.ifOpened(0, 1, NONE), FULL);
+        refused("ifOpened(9, 9, 9)", ClauseGroup::full, g -> g.ifOpened(9, 9, 9), FULL);
     }
 
     private void undoOfNothing() {
-        edge("Promise 26", "STATE if there is none.");
-        refused("undo()", EdgeGroup::fresh, f -> f.undo(), STATE);
+        clause("Promise 26", "STATE if there is none.");
+        refused("undo()", ClauseGroup::fresh, f -> f.undo(), STATE);
         ConnectionFamily f = new ConnectionFamily();
         f.run(1);
-        edge("Promise 26", "Returns to the latest remembered state, which is not remembered any more then.");
+        clause("Promise 26", "Returns to the latest remembered state, which is not remembered any more then.");
         due("undo() of one", f.undo(), 0);
         due("told(0)", f.told(CLOCK), 0);
         due("undo() of none", f.undo(), STATE);
-        edge("Promise 26", "Returns how many states are still remembered;");
+        clause("Promise 26", "Returns how many states are still remembered;");
         ConnectionFamily g = busy();
         for (int left = 4; left >= 0; left--) {
             due("undo()", g.undo(), left);
@@ -178,7 +178,7 @@ final class TrialEdges extends EdgeGroup {
     }
 
     private void undoLeavesTextAndFault() {
-        edge("Promise 26", "The text buffer and what fault() tells stay.");
+        clause("Promise 26", "The text buffer and what fault() tells stay.");
         ConnectionFamily f = busy();
         f.undo();
         due("told(12)", f.told(BYTES), 2);
@@ -191,11 +191,11 @@ final class TrialEdges extends EdgeGroup {
     }
 
     private void digestWrapsAround() {
-        edge("Promise 27", "h is 18506 at first; then h becomes 31 * h + v (long arithmetic that wraps around)");
-        for (Maker maker : new Maker[] {EdgeGroup::fresh, EdgeGroup::busy, EdgeGroup::full}) {
+        clause("Promise 27", "h is 18506 at first; then h becomes 31 * h + v (long arithmetic that wraps around)");
+        for (Maker maker : new Maker[] {ClauseGroup::fresh, ClauseGroup::busy, ClauseGroup::full}) {
             due("digest()", maker.make().digest(), byHand(maker.make()));
         }
-        changesNothing("digest()", EdgeGroup::busy, f -> f.digest());
+        changesNothing("digest()", ClauseGroup::busy, f -> f.digest());
     }
 
     private static long byHand(ConnectionFamily f) {
@@ -231,7 +231,7 @@ final class TrialEdges extends EdgeGroup {
 
     /** By hand: of a new object all values are known. */
     private void digestOfAllValues() {
-        edge("Promise 27", "told() for 0 to 12; for each open connection, in ascending order, its number, property() for 0 to 16, count() for 0 to 5, kin()");
+        clause("Promise 27", "told() for 0 to 12; for each open connection, in ascending order, its number, property() for 0 to 16, count() for 0 to 5, kin()");
         int[] values = {0, 40, 20, 2, 5, 1, 0, 0, 0, 32, 0, 0, 0, 0, -9, 1, 40, 40, 32, 32, 2, 0, 0, 0, 0, 10, -9, -9, 0,
             0, 0, 0, 0, 0, 0, 0, 0, 0, -9, -9};
         BigInteger h = BigInteger.valueOf(18506);

@@ -1,5 +1,5 @@
-/** What the groups of edge tests share. Each of their tests names the words of the document that it is about. */
-abstract class EdgeGroup {
+/** What the groups of tests by clauses share. Each of their tests names the words of the document that it is about. */
+abstract class ClauseGroup {
     static final int BAD = -1, STATE = -2, FULL = -3, NONE = -9;
     static final int LEAST = Integer.MIN_VALUE, MOST = Integer.MAX_VALUE;
     static final int PARENT = 0, WEIGHT = 1, AMOUNT = 2, LIMIT = 3, CREDIT = 4, THRESHOLD = 5, WINDOW = 6, FLIGHT = 7,
@@ -20,7 +20,7 @@ abstract class EdgeGroup {
     private final Doc doc;
     private String about = "";
 
-    EdgeGroup(Check check, Doc doc) {
+    ClauseGroup(Check check, Doc doc) {
         this.check = check;
         this.doc = doc;
     }
@@ -28,7 +28,7 @@ abstract class EdgeGroup {
     abstract void all();
 
     /** Says which words of the document the answers after this are about. */
-    final void edge(String section, String words) {
+    final void clause(String section, String words) {
         about = section + ": " + words;
         check.holds("the document does not say under " + about, doc.says(section, words));
     }
@@ -167,5 +167,48 @@ abstract class EdgeGroup {
         while (f.told(CLOCK) < tick) {
             f.run(Math.min(60, tick - f.told(CLOCK)));
         }
+    }
+
+    /** Packet 1 is dropped at tick 0, and found lost when 2 is acknowledged at tick 10. */
+    static ConnectionFamily afterAGap() {
+        ConnectionFamily f = new ConnectionFamily();
+        f.setLink(0, 1);
+        f.give(0, 10);
+        f.run(11);
+        return f;
+    }
+
+    /** A trip of 5, and a packet that is sent at tick 6 and found lost at tick 21. */
+    static ConnectionFamily afterATimeout() {
+        ConnectionFamily f = new ConnectionFamily();
+        f.give(0, 1);
+        f.run(6);
+        f.setLink(2, 30);
+        f.give(0, 1);
+        f.run(16);
+        return f;
+    }
+
+    /** The same, and a child of the head, which has had a trip of 1. */
+    static ConnectionFamily withAChild() {
+        ConnectionFamily f = afterATimeout();
+        f.open(0, 1);
+        f.setLink(2, 1);
+        f.give(1, 1);
+        f.run(2);
+        return f;
+    }
+
+    /** Connections 0, 1 and 2 have sent a packet each at tick 0, and the link has served that of 0. */
+    static ConnectionFamily threeInLine() {
+        ConnectionFamily f = new ConnectionFamily();
+        Texts.load(f, "1(1 1)");
+        f.setLink(1, 1);
+        f.setLink(2, 1);
+        for (int c = 0; c <= 2; c++) {
+            f.give(c, 1);
+        }
+        f.run(1);
+        return f;
     }
 }
